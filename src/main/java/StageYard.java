@@ -887,29 +887,26 @@ public final class StageYard {
             readyLowest();
         }
 
-        /** Stages without stuff fall off ahead of a tick; behind the last one none comes. */
-        private void dropEmpty() {
-            for (int k = 0; k < MAX_STAGES && left == 0 && stuffLeft > 0; k++) {
-                dropLowest();
-            }
-        }
-
         /** An engine of the stage that would burn in the coming tick works no more. */
         void loseEngine() {
             if (!goesOn()) {
                 return;
             }
-            dropEmpty();
+            for (int k = 0; k < MAX_STAGES && left == 0; k++) {
+                dropLowest();
+            }
             working--;
             if (working < 1) {
                 dropLowest();
             }
         }
 
-        /** Flies up to a tick; hasty: no further than the first break of LOADING. */
+        /**
+         * Flies up to a tick, a stage a round; hasty: no further than the first break of LOADING.
+         * A stage without stuff falls off ahead of a tick, so none does behind the last stuff.
+         */
         void goOn(int until, boolean hasty) {
             for (int k = 0; k < MAX_STAGES && goesOn() && ticks < until; k++) {
-                dropEmpty();
                 burnLowest(until, hasty);
                 if (left == 0) {
                     dropLowest();

@@ -20,6 +20,7 @@ public final class PlainCompareTest {
         for (int seed = 0; seed < RUNS && wrong < 20; seed++) {
             new PlainCompareTest(seed).run(seed);
         }
+        new PlainCompareTest(4).heaviest();
         System.out.println(wrong == 0 ? "StageYard agrees with PlainYard" : wrong + " answers differ");
         if (wrong != 0) System.exit(1);
     }
@@ -34,6 +35,32 @@ public final class PlainCompareTest {
                 return;
             }
         }
+    }
+
+    private void must(int[] both) {
+        if (both[0] != both[1]) {
+            wrong++;
+            System.out.println("heaviest rocket, " + call + " answered " + both[0] + ", due is " + both[1]);
+        }
+    }
+
+    /** All as heavy and as long as can be: the ends of all rows. */
+    private void heaviest() {
+        for (int e = 0; e < 6; e++) must(told("engine", yard.engine(999, 999 - e, 99, 9999), plain.engine(999, 999 - e, 99, 9999)));
+        must(told("set", yard.set(0, 999), plain.set(0, 999)));
+        must(told("set", yard.set(1, 50), plain.set(1, 50)));
+        for (int k = 0; k < 4; k++) {
+            must(told("stage", yard.stage(k, 9, 600, 99), plain.stage(k, 9, 600, 99)));
+            must(told("split", yard.split(20, 30), plain.split(20, 30)));
+            must(told("cheapest", yard.cheapest(1000, 9), plain.cheapest(1000, 9)));
+            must(told("speed low", yard.speed(0), plain.speed(0)));
+            must(told("speed high", yard.speed(1), plain.speed(1)));
+            must(told("fly", yard.fly(), plain.fly()));
+            must(told("safe", yard.safe(), plain.safe()));
+            must(told("price", yard.price(), plain.price()));
+            must(pairOfSame(0));
+        }
+        must(told("mass", yard.count(5), 4 * (891 + 300 + 99 + 600) + 999));
     }
 
     /** Now and then a row of the asking calls, so that wrong state is seen soon. */
@@ -172,7 +199,7 @@ public final class PlainCompareTest {
                 a = pick(0, 9) % 10;
                 b = pick(0, 9) % 10;
                 c = pick(0, 9) % 10;
-                d = random.nextInt(12);
+                d = pick(0, 11);
                 e = style == 2 ? random.nextInt(3) : pick(0, 999);
                 return told("flight", yard.flight(a, b, c, d, e), plain.flight(a, b, c, d, e), a, b, c, d, e);
             case 28: case 29:

@@ -253,6 +253,7 @@ public final class PromiseTest {
         due(12, "three lift 428", x.cheapest(0, 428), 150);
         due(12, "not 429", x.cheapest(0, 429), -5);
         due(12, "not so fast", x.cheapest(1000000, 0), -5);
+        due(12, "the most that can be asked", x.cheapest(1000000, 1000), -5);
         due(12, "refused", x.cheapest(0, 2000), BAD);
         due(13, "the latest that told a cost", x.chosen(0, 1), 3);
         due(13, "stage 1", x.chosen(1, 0), NONE);
@@ -636,6 +637,7 @@ public final class PromiseTest {
         for (int f = 3; f < 10; f++) due(25, "flight " + f, x.flight(0, 0, 0, 11, 999), f);
         due(25, "an eleventh", x.flight(0, 0, 0, 11, 999), FULL);
         due(25, "BAD ahead of FULL", x.flight(0, 0, 0, 12, 999), BAD);
+        due(25, "nine of each", new StageYard().flight(9, 9, 9, 11, 999), 0);
         due(27, "seven of 999", x.year(), 10 + 7 * 999);
         due(28, "bits 3 to 9", x.flights(), 3 + 1016);
         due(27, "asked again", x.year(), 10 + 7 * 999);
