@@ -35,7 +35,7 @@ public final class StageYard {
         settings = new int[] {10, 10, 90};
         kinds = new Engines();
         rocket = new Rocket(kinds, settings);
-        LowSums sums = new LowSums(kinds);
+        LowSums sums = new LowSums();
         splitSearch = new SplitSearch(rocket, sums);
         cheapestSearch = new CheapestSearch(rocket, sums);
         sky = new Sky();
@@ -535,10 +535,15 @@ public final class StageYard {
         }
 
         int dryOf(int k) {
-            if (!has(k)) {
-                return 0;
-            }
-            return manyOf[k] * kinds.mass[engineOf[k]] + tankFor(stuffOf[k]) + frameOf[k];
+            return has(k) ? bareOf(k) + tankFor(stuffOf[k]) : 0;
+        }
+
+        int bareOf(int k) {
+            return has(k) ? manyOf[k] * kinds.mass[engineOf[k]] + frameOf[k] : 0;
+        }
+
+        int exhaustOf(int k) {
+            return has(k) ? kinds.exhaust[engineOf[k]] : 0;
         }
 
         int massFrom(int k) {
@@ -561,7 +566,7 @@ public final class StageYard {
             if (!has(k)) {
                 return 0;
             }
-            int top = 1000 * kinds.exhaust[engineOf[k]];
+            int top = 1000 * exhaustOf(k);
             int ahead = massFrom(k);
             int sum = 0;
             for (int burn = kept; burn < stuffOf[k] && ahead > 0; burn++) {
@@ -575,7 +580,7 @@ public final class StageYard {
             if (!has(k)) {
                 return 0;
             }
-            int top = 1000 * kinds.exhaust[engineOf[k]];
+            int top = 1000 * exhaustOf(k);
             int behind = massFrom(k) - 1;
             int sum = 0;
             for (int burn = 0; burn < stuffOf[k] && behind > 0; burn++) {
@@ -621,49 +626,52 @@ public final class StageYard {
     }
 
     /**
-     * For each engine LOW summed up over all masses, so that a search has a whole stage's LOW by
-     * one subtraction. A row is made when a search first asks for it, and holds for good.
+     * LOW of one engine summed up over a range of masses, so that a search has a whole stage's LOW
+     * by one subtraction. One row, made once and filled anew, serves every search: what calls make
+     * is counted, and this way they make nothing.
      */
     private static final class LowSums {
-        // The heaviest rocket of a split: 4 * (9 * 99 + 99) + 600 + 304 of tanks + 999.
-        private static final int ROW = 5864;
+        // In a search a stage's masses differ by those of 9 engines, or by tanks, and by stuff.
+        private static final int SPAN = 9 * 99 + MAX_STUFF;
 
-        private final Engines kinds;
-        private final int[][] rows = new int[MAX_ENGINES][1];
+        private final int[] row = new int[SPAN + 1];
+        private int from = 0;
+        private int to = 0;
 
-        LowSums(Engines itsKinds) {
-            kinds = itsKinds;
+        void ready(int exhaust, int least, int most) {
+            from = Math.max(least, 0);
+            to = Math.min(most, from + SPAN);
+            int top = 1000 * exhaust;
+            int sum = 0;
+            for (int mass = from + 1; mass <= to; mass++) {
+                sum += top / mass;
+                row[mass - from] = sum;
+            }
         }
 
-        int between(int e, int behind, int ahead) {
-            if (!kinds.has(e) || behind < 0 || ahead < behind || ahead >= ROW) {
+        int between(int behind, int ahead) {
+            if (behind < from || ahead < behind || ahead > to) {
                 return 0;
             }
-            int[] row = rows[e];
-            if (row.length < ROW) {
-                row = summed(1000 * kinds.exhaust[e]);
-                rows[e] = row;
-            }
-            return row[ahead] - row[behind];
-        }
-
-        private static int[] summed(int top) {
-            int[] row = new int[ROW];
-            int sum = 0;
-            for (int mass = 1; mass < ROW; mass++) {
-                sum += top / mass;
-                row[mass] = sum;
-            }
-            return row;
+            return row[ahead - from] - row[behind - from];
         }
     }
 
-    /** The best split, searched from the upper stage down, since what is above weighs on it. */
+    /**
+     * The best split, searched from the upper stage down, since what is above weighs on a stage.
+     * What the stages above got weighs by two numbers alone: their lots, and the extra that their
+     * tanks weigh as each is rounded up by itself. So the best for each such pair is all it keeps.
+     */
     private static final class SplitSearch {
+        private static final int MOST_LOTS = 20;
+        // Four tanks rounded up one by one weigh 3 more than one for all, at most.
+        private static final int EXTRAS = MAX_STAGES;
+
         private final Rocket rocket;
         private final LowSums sums;
+        private final int[] lowAt = new int[(MOST_LOTS + 1) * EXTRAS];
+        private final int[] keyAt = new int[(MOST_LOTS + 1) * EXTRAS];
         private int lotSize = 1;
-        private int bestLow = NONE;
         int bestKey = 0;
         int stages = 0;
 
@@ -674,49 +682,91 @@ public final class StageYard {
 
         int search(int lotsInAll, int size) {
             lotSize = size;
-            bestLow = NONE;
-            bestKey = 0;
             stages = rocket.size;
-            fill(stages - 1, lotsInAll, rocket.load(), 0, 0);
-            return bestLow;
+            for (int at = 0; at < lowAt.length; at++) {
+                lowAt[at] = NONE;
+            }
+            lowAt[0] = 0;
+            keyAt[0] = 0;
+            int bare = rocket.load();
+            for (int k = stages - 1; k >= 0; k--) {
+                bare += rocket.bareOf(k);
+                int most = bare + lotsInAll * lotSize + tankFor(lotsInAll) + EXTRAS;
+                sums.ready(rocket.exhaustOf(k), bare, most);
+                // From the most lots on: those with fewer are still as the stages above left them.
+                for (int sum = Math.min(lotsInAll, MOST_LOTS); sum > 0; sum--) {
+                    fill(k, bare, sum);
+                }
+            }
+            return tellBest(lotsInAll);
         }
 
-        private void fill(int k, int rest, int above, int low, int key) {
-            if (!rocket.has(k)) {
-                return;
-            }
-            int e = rocket.engineOf[k];
-            int bare = above + rocket.dryOf(k) - rocket.tankFor(rocket.stuffOf[k]);
-            for (int n = k == 0 ? rest : 0; n <= rest; n++) {
-                int behind = bare + rocket.tankFor(n * lotSize);
-                int ahead = behind + n * lotSize;
-                int nowLow = low + sums.between(e, behind, ahead);
-                int nowKey = key + digitFor(k, n);
-                if (k == 0) {
-                    offer(nowLow, nowKey);
-                } else {
-                    fill(k - 1, rest - n, ahead, nowLow, nowKey);
+        private int tankFor(int n) {
+            return rocket.tankFor(n * lotSize);
+        }
+
+        /** Stage k gets 1 lot or more of a sum; with none what the stages above got stays. */
+        private void fill(int k, int bare, int sum) {
+            for (int n = 1; n <= sum; n++) {
+                int above = sum - n;
+                int tanks = tankFor(above) + tankFor(n);
+                int more = tanks - tankFor(sum);
+                int behind = bare + above * lotSize + tanks;
+                for (int extra = 0; extra < EXTRAS; extra++) {
+                    int at = above * EXTRAS + extra;
+                    if (lowAt[at] != NONE) {
+                        int mass = behind + extra;
+                        int low = lowAt[at] + sums.between(mass, mass + n * lotSize);
+                        offer(sum * EXTRAS + extra + more, low, keyAt[at] + digitFor(k, n));
+                    }
                 }
             }
         }
 
-        private void offer(int low, int key) {
-            if (low > bestLow || low == bestLow && key < bestKey) {
-                bestLow = low;
-                bestKey = key;
+        /** Offers come with ever more lots in the stage: of equally good ones the first stays. */
+        private void offer(int at, int low, int key) {
+            if (at >= 0 && at < lowAt.length && low > lowAt[at]) {
+                lowAt[at] = low;
+                keyAt[at] = key;
             }
+        }
+
+        private int tellBest(int lotsInAll) {
+            int best = NONE;
+            for (int extra = 0; extra < EXTRAS; extra++) {
+                int at = lotsInAll * EXTRAS + extra;
+                if (at < 0 || at >= lowAt.length || lowAt[at] == NONE) {
+                    continue;
+                }
+                if (lowAt[at] > best || lowAt[at] == best && keyAt[at] < bestKey) {
+                    best = lowAt[at];
+                    bestKey = keyAt[at];
+                }
+            }
+            return best;
         }
     }
 
-    /** The cheapest engines, searched from the upper stage down. */
+    /**
+     * The cheapest engines, searched from the upper stage down. The choices for the stages so far
+     * stand in rows: first the one for no stage, then those for the top one, then for the upper
+     * two; those for three are never kept.
+     */
     private static final class CheapestSearch {
         static final int MOST_STAGES = 3;
         private static final int MOST_ENGINES = 3;
+        private static final int OPTIONS = MAX_ENGINES * MOST_ENGINES;
+        private static final int CHOICES = 1 + OPTIONS + OPTIONS * OPTIONS;
         private static final int DEAR = 1000000;
 
         private final Rocket rocket;
         private final Engines kinds;
         private final LowSums sums;
+        private final int[] massOf = new int[CHOICES];
+        private final int[] lowOf = new int[CHOICES];
+        private final int[] costOf = new int[CHOICES];
+        private final int[] keyOf = new int[CHOICES];
+        private int kept = 0;
         private int wantedSpeed = 0;
         private int wantedLift = 0;
         private int bestCost = DEAR;
@@ -747,7 +797,14 @@ public final class StageYard {
             wantedSpeed = itsSpeed;
             wantedLift = itsLift;
             bestCost = DEAR;
-            choose(rocket.size - 1, rocket.load(), 0, 0, 0);
+            kept = 0;
+            keep(rocket.load(), 0, 0, 0);
+            int from = 0;
+            for (int k = rocket.size - 1; k >= 0; k--) {
+                int to = kept;
+                chooseFor(k, from, to);
+                from = to;
+            }
             if (bestCost == DEAR) {
                 return NO_WAY;
             }
@@ -756,36 +813,61 @@ public final class StageYard {
             return bestCost;
         }
 
-        private void choose(int k, int above, int low, int cost, int key) {
-            if (!rocket.has(k)) {
+        /** Engine by engine, since the sums are of one at a time. */
+        private void chooseFor(int k, int from, int to) {
+            if (!rocket.has(k) || from < 0 || from >= to || to > CHOICES) {
                 return;
             }
-            int itsStuff = rocket.stuffOf[k];
-            int bare = above + rocket.tankFor(itsStuff) + rocket.frameOf[k];
+            int shell = rocket.frameOf[k] + rocket.tankFor(rocket.stuffOf[k]);
+            int least = massOf[from];
+            int most = least;
+            for (int at = from; at < to; at++) {
+                least = Math.min(least, massOf[at]);
+                most = Math.max(most, massOf[at]);
+            }
             for (int e = 0; e < kinds.size; e++) {
-                for (int many = 1; many <= MOST_ENGINES; many++) {
-                    int nowCost = cost + many * kinds.firstCost[e];
-                    if (nowCost > bestCost) {
-                        break;
-                    }
-                    int behind = bare + many * kinds.mass[e];
-                    int ahead = behind + itsStuff;
-                    if (!lifts(e, many, ahead)) {
-                        continue;
-                    }
-                    int nowLow = low + sums.between(e, behind, ahead);
-                    int nowKey = key + digitFor(k, optionOf(e, many));
-                    if (k == 0) {
-                        offer(nowLow, nowCost, nowKey);
-                    } else {
-                        choose(k - 1, ahead, nowLow, nowCost, nowKey);
-                    }
+                int heaviest = most + shell + MOST_ENGINES * kinds.mass[e] + rocket.stuffOf[k];
+                sums.ready(kinds.exhaust[e], least + shell, heaviest);
+                for (int at = from; at < to; at++) {
+                    chooseEngine(k, e, at, massOf[at] + shell);
+                }
+            }
+        }
+
+        private void chooseEngine(int k, int e, int at, int bare) {
+            for (int many = 1; many <= MOST_ENGINES; many++) {
+                int cost = costOf[at] + many * kinds.firstCost[e];
+                if (cost > bestCost) {
+                    return;
+                }
+                int behind = bare + many * kinds.mass[e];
+                int ahead = behind + rocket.stuffOf[k];
+                if (!lifts(e, many, ahead)) {
+                    continue;
+                }
+                int low = lowOf[at] + sums.between(behind, ahead);
+                int key = keyOf[at] + digitFor(k, optionOf(e, many));
+                if (k == 0) {
+                    offer(low, cost, key);
+                } else {
+                    keep(ahead, low, cost, key);
                 }
             }
         }
 
         private boolean lifts(int e, int many, int ahead) {
             return ahead > 0 && 100 * many * kinds.thrust[e] / ahead >= wantedLift;
+        }
+
+        private void keep(int mass, int low, int cost, int key) {
+            if (kept >= CHOICES) {
+                return;
+            }
+            massOf[kept] = mass;
+            lowOf[kept] = low;
+            costOf[kept] = cost;
+            keyOf[kept] = key;
+            kept++;
         }
 
         private void offer(int low, int cost, int key) {

@@ -21,6 +21,8 @@ public final class PlainCompareTest {
             new PlainCompareTest(seed).run(seed);
         }
         new PlainCompareTest(4).heaviest();
+        for (int seed = 0; seed < 6 && wrong < 20; seed++) new PlainCompareTest(seed).widest();
+        for (int seed = 0; seed < 100 && wrong < 20; seed++) new PlainCompareTest(seed).tied();
         System.out.println(wrong == 0 ? "StageYard agrees with PlainYard" : wrong + " answers differ");
         if (wrong != 0) System.exit(1);
     }
@@ -40,7 +42,7 @@ public final class PlainCompareTest {
     private void must(int[] both) {
         if (both[0] != both[1]) {
             wrong++;
-            System.out.println("heaviest rocket, " + call + " answered " + both[0] + ", due is " + both[1]);
+            System.out.println("a rocket of the ends, " + call + " answered " + both[0] + ", due is " + both[1]);
         }
     }
 
@@ -61,6 +63,46 @@ public final class PlainCompareTest {
             must(pairOfSame(0));
         }
         must(told("mass", yard.count(5), 4 * (891 + 300 + 99 + 600) + 999));
+    }
+
+    /** The lightest engines beside the heaviest, all stuff: the widest ranges that a search meets. */
+    private void widest() {
+        for (int e = 0; e < 6; e++) {
+            int exhaust = 1 + random.nextInt(999), mass = e % 2 == 0 ? 99 : 1, cost = 1 + random.nextInt(style == 0 ? 3 : 999);
+            must(told("engine", yard.engine(999, exhaust, mass, cost), plain.engine(999, exhaust, mass, cost)));
+        }
+        must(told("set", yard.set(0, 0), plain.set(0, 0)));
+        for (int k = 0; k < 4; k++) {
+            must(told("stage", yard.stage(k, k + 1, 600, 0), plain.stage(k, k + 1, 600, 0)));
+            for (int i = 0; i < 5; i++) {
+                int share = random.nextInt(3) == 0 ? 50 : 1 + random.nextInt(50), size = 30 - random.nextInt(3);
+                must(told("set", yard.set(1, share), plain.set(1, share), 1, share));
+                must(told("split", yard.split(20, size), plain.split(20, size), 20, size));
+                int speed = random.nextInt(1 + 2 * plain.speed(0)), lift = random.nextInt(150);
+                must(told("cheapest", yard.cheapest(speed, lift), plain.cheapest(speed, lift), speed, lift));
+                must(pairOfSame(0));
+            }
+        }
+    }
+
+    /** Small rockets and small costs: many choices as cheap, many splits as good. */
+    private void tied() {
+        for (int e = 0; e < 4; e++) {
+            int thrust = 1 + random.nextInt(30), exhaust = 1 + random.nextInt(style < 2 ? 5 : 99);
+            int mass = 1 + random.nextInt(9), cost = 1 + random.nextInt(3);
+            must(told("engine", yard.engine(thrust, exhaust, mass, cost), plain.engine(thrust, exhaust, mass, cost)));
+        }
+        must(told("set", yard.set(0, style), plain.set(0, style)));
+        for (int k = 0; k < 4; k++) {
+            int n = random.nextInt(7);
+            must(told("stage", yard.stage(k, 1, n, style), plain.stage(k, 1, n, style)));
+            for (int i = 0; i < 3; i++) {
+                int count = random.nextInt(8), speed = random.nextInt(1 + plain.speed(0)), lift = random.nextInt(150);
+                must(told("split", yard.split(count, i + 1), plain.split(count, i + 1), count, i + 1));
+                must(told("cheapest", yard.cheapest(speed, lift), plain.cheapest(speed, lift), speed, lift));
+                must(pairOfSame(0));
+            }
+        }
     }
 
     /** Now and then a row of the asking calls, so that wrong state is seen soon. */

@@ -275,6 +275,42 @@ public final class PromiseTest {
         due(12, "two of 2 or one of 4", y.cheapest(0, 201), 4);
         due(13, "the lesser engine ahead of the fewer", y.chosen(0, 0) * 10 + y.chosen(0, 1), 2);
         twoStageTie();
+        fewerBelow();
+        nineHeavyOnes();
+    }
+
+    private static void fewerBelow() {
+        StageYard x = new StageYard();
+        x.engine(17, 1, 1, 1);
+        x.engine(16, 500, 10, 1);
+        x.engine(11, 500, 1, 2);
+        x.stage(0, 1, 10, 0);
+        x.stage(0, 1, 10, 0);
+        // Below engine 1 (MASS 31) two of engine 0 lift, below engine 2 (MASS 22) one: 3 both times.
+        due(12, "two below a cheap one, one below a dear one", x.cheapest(5000, 50), 3);
+        due(13, "below it is engine 0", x.chosen(0, 0), 0);
+        due(13, "the fewer below", x.chosen(0, 1), 1);
+        due(13, "engine 2 above", x.chosen(1, 0), 2);
+        due(13, "one above", x.chosen(1, 1), 1);
+    }
+
+    /** The light engine lifts as well, but is too dear: both ends of what a search weighs. */
+    private static void nineHeavyOnes() {
+        StageYard x = new StageYard();
+        x.engine(999, 999, 99, 2);
+        x.engine(680, 999, 99, 1);
+        x.engine(999, 1, 1, 9999);
+        x.set(0, 999);
+        x.stage(0, 3, 600, 0);
+        x.stage(0, 3, 600, 0);
+        x.stage(1, 3, 600, 0);
+        due(9, "as fast as nine heavy engines", x.speed(0), 763632);
+        due(12, "nine heavy engines", x.cheapest(763632, 74), 15);
+        due(13, "the lowest", x.chosen(0, 0) * 10 + x.chosen(0, 1), 3);
+        due(13, "the middle one", x.chosen(1, 0) * 10 + x.chosen(1, 1), 3);
+        due(13, "the upper one", x.chosen(2, 0) * 10 + x.chosen(2, 1), 13);
+        due(12, "a speed more", x.cheapest(763633, 74), 16);
+        due(13, "the upper one is stronger", x.chosen(2, 0) * 10 + x.chosen(2, 1), 2);
     }
 
     private static void twoStageTie() {
