@@ -353,6 +353,16 @@ public final class BoundaryFlightTest {
         StageYard hover = fiveUnderTen(15, 1, 10);
         due("a push of just its weight", hover.fly(), 0);
         flown(hover, 2, 0, 0);
+        // PACE 60; MASS 10, DRAG 300: PACE -60, HEIGHT just 0; MASS 6, DRAG 300 once more: 150 more.
+        StageYard again = fiveUnderTen(24, 1, 1);
+        again.engine(12, 1, 1, 1);
+        again.set(0, 3);
+        again.undo();
+        again.stage(1, 1, 1, 1);
+        again.stage(2, 1, 1, 0);
+        again.air(0, 834);
+        due("up again", again.fly(), 0);
+        flown(again, 3, 90, 90);
     }
 
     private static void fallsOffAtTheEnd() {
@@ -534,6 +544,10 @@ public final class BoundaryFlightTest {
         x.limit(0, 15);
         due("above 15", x.fly(), 1);
         due("the first of them", x.flown(5), 1);
+        Boundary.airless(x);
+        due("no air any more", x.fly(), 0);
+        due("no loading", x.flown(3), 0);
+        due("0 in all ticks, the first", x.flown(4), 0);
     }
 
     private static void noTickOfBreak() {
@@ -687,6 +701,17 @@ public final class BoundaryFlightTest {
         StageYard one = Boundary.small();
         one.stuff(0, 1);
         due("the only tick", one.safe(), 1);
+        // Two below and one above come to 628 and 300, the whole flight to 700.
+        StageYard two = fiveUnderTen(30, 2, 20);
+        two.undo();
+        two.undo();
+        two.stage(0, 2, 2, 0);
+        two.stage(1, 1, 1, 0);
+        int[][] more = {{300, 2}, {301, 1}, {628, 1}, {629, 0}};
+        for (int[] limit : more) {
+            two.limit(1, limit[0]);
+            due("two below, a limit of " + limit[0], two.safe(), limit[1]);
+        }
     }
 
     private static void safeOfLoading() {
@@ -696,6 +721,19 @@ public final class BoundaryFlightTest {
         for (int[] one : cases) {
             x.limit(0, one[0]);
             due("a limit of " + one[0], x.safe(), one[1]);
+        }
+        // The last tick has a LOADING of 1980 with an engine out from 0 on, of 1918 from 1 on, and is
+        // not flown with the upper stage's only one out.
+        StageYard three = new StageYard();
+        three.engine(12, 1, 1, 1);
+        three.engine(47, 1, 1, 1);
+        three.set(0, 6);
+        three.stage(0, 3, 4, 0);
+        three.stage(1, 1, 2, 0);
+        int[][] more = {{100, 2}, {1917, 2}, {1918, 3}, {1979, 3}, {1980, 4}};
+        for (int[] one : more) {
+            three.limit(0, one[0]);
+            due("three below, a limit of " + one[0], three.safe(), one[1]);
         }
     }
 

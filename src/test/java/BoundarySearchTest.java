@@ -8,6 +8,7 @@ public final class BoundarySearchTest {
         splitOfAll();
         splitWithoutStage();
         splitTies();
+        splitByAllWays();
         splitLeavesStuff();
         lotsOfNone();
         lotsOfTheLatest();
@@ -19,6 +20,7 @@ public final class BoundarySearchTest {
         liftJustSo();
         upToThreeEngines();
         cheapestTies();
+        cheapestByAllChoices();
         chosenOfNone();
         chosenOfTheLatest();
         Boundary.end();
@@ -119,6 +121,67 @@ public final class BoundarySearchTest {
         x.stage(1, 1, 0, 0);
         due("999000 by 1004 is 995", x.split(1, 1), 995);
         due("in stage 0", x.lots(0) * 100 + x.lots(1) * 10 + x.lots(2), 100);
+    }
+
+    /** A rocket as numbers: LOAD, SHARE, and of each stage the exhaust, the engines' MASS and the FRAME. */
+    private static StageYard told(int load, int share, int[][] stages) {
+        StageYard x = new StageYard();
+        x.set(0, load);
+        x.set(1, share);
+        for (int k = 0; k < stages.length; k++) {
+            x.engine(100, stages[k][0], stages[k][1], 1);
+            x.stage(k, 1, 0, stages[k][2]);
+        }
+        return x;
+    }
+
+    /** At the ends of LOTS, size and SHARE, where each tank is rounded up by itself. */
+    private static void splitByAllWays() {
+        says(10, "such that LOW of the ROCKET is the greatest;");
+        int[][] lotsAndSizes = {{20, 30}, {20, 29}, {20, 1}, {19, 7}, {1, 30}, {7, 3}};
+        int[][][] rockets = {
+            {{999, 1, 0}, {999, 1, 0}, {999, 1, 0}, {999, 1, 0}},
+            {{999, 99, 99}, {300, 9, 0}, {500, 20, 5}, {400, 1, 0}},
+            {{900, 40, 0}, {450, 3, 0}, {400, 1, 0}},
+            {{3, 2, 0}, {2, 1, 0}, {1, 1, 0}, {2, 1, 1}},
+            {{500, 30, 99}, {400, 1, 0}},
+            {{1, 99, 99}}};
+        for (int[][] stages : rockets) {
+            for (int[] one : lotsAndSizes) {
+                for (int share : new int[] {1, 10, 33, 50}) allWays(one[0] + share % 3, share, stages, one);
+            }
+        }
+    }
+
+    private static void allWays(int load, int share, int[][] stages, int[] lotsAndSize) {
+        int lots = lotsAndSize[0], size = lotsAndSize[1], all = 1;
+        for (int k = 1; k < stages.length; k++) all *= lots + 1;
+        StageYard way = told(load, share, stages);
+        int best = -1;
+        int[] bestLots = new int[stages.length];
+        for (int number = 0; number < all; number++) {
+            // The digits of the number, stage 0 first: so the fewest below come first.
+            int[] now = new int[stages.length];
+            int rest = number, sum = 0;
+            if (number % 90 == 0) way = told(load, share, stages);
+            for (int k = stages.length - 2; k >= 0; k--) {
+                now[k] = rest % (lots + 1);
+                rest /= lots + 1;
+                sum += now[k];
+            }
+            if (sum > lots) continue;
+            now[stages.length - 1] = lots - sum;
+            for (int k = 0; k < stages.length; k++) way.stuff(k, now[k] * size);
+            int low = way.speed(0);
+            if (low > best) {
+                best = low;
+                bestLots = now;
+            }
+        }
+        StageYard x = told(load, share, stages);
+        String what = lots + " lots of " + size + " on " + stages.length + " stages, share " + share;
+        due(what, x.split(lots, size), best);
+        for (int k = 0; k < stages.length; k++) due(what + ", stage " + k, x.lots(k), bestLots[k]);
     }
 
     private static void splitLeavesStuff() {
@@ -296,6 +359,81 @@ public final class BoundarySearchTest {
         due("all three", x.cheapest(333 + 500 + 1000, 0), 15);
         due("where", x.chosen(0, 0) * 100 + x.chosen(1, 0) * 10 + x.chosen(2, 0), 111);
         due("a speed more", x.cheapest(1834, 0), NO_WAY);
+        // Below engine 1 (MASS 31) two of engine 0 lift, below engine 2 (MASS 22) one: 3 both times.
+        StageYard fewer = new StageYard();
+        fewer.engine(17, 1, 1, 1);
+        fewer.engine(16, 500, 10, 1);
+        fewer.engine(11, 500, 1, 2);
+        fewer.stage(0, 1, 10, 0);
+        fewer.stage(0, 1, 10, 0);
+        due("two below a cheap one, one below a dear one", fewer.cheapest(5000, 50), 3);
+        due("the fewer below", fewer.chosen(0, 0) * 10 + fewer.chosen(0, 1), 1);
+        due("the dear one above", fewer.chosen(1, 0) * 10 + fewer.chosen(1, 1), 21);
+    }
+
+    /** Thrust, exhaust, MASS and COST of six engines: the heaviest beside the lightest. */
+    private static final int[][] SIX = {
+        {999, 999, 99, 2}, {680, 999, 99, 1}, {999, 1, 1, 9999}, {40, 700, 2, 3}, {300, 400, 40, 2}, {90, 999, 1, 3}};
+
+    private static StageYard six(int load, int[][] stages) {
+        StageYard x = new StageYard();
+        for (int[] e : SIX) x.engine(e[0], e[1], e[2], e[3]);
+        x.set(0, load);
+        x.set(1, 50);
+        for (int[] stage : stages) x.stage(stage[0], stage[1], stage[2], stage[3]);
+        return x;
+    }
+
+    private static void cheapestByAllChoices() {
+        says(12, "(STUFF, FRAMES as they are), with the least COST together;");
+        int[][][] rockets = {
+            {{0, 3, 600, 0}, {0, 3, 600, 0}, {1, 3, 600, 0}},
+            {{5, 1, 600, 99}, {3, 2, 1, 0}, {0, 3, 600, 0}},
+            {{0, 1, 0, 0}, {5, 1, 30, 0}, {3, 3, 4, 9}},
+            {{0, 3, 600, 99}, {5, 3, 600, 99}},
+            {{5, 2, 600, 0}}};
+        for (int[][] stages : rockets) {
+            for (int load : new int[] {0, 999}) {
+                int speed = Math.min(six(load, stages).speed(0), 1000000);
+                int lift = 1000;
+                for (int k = 0; k < stages.length; k++) lift = Math.min(lift, six(load, stages).about(k, 8));
+                allChoices(load, stages, speed, lift);
+                allChoices(load, stages, speed, 0);
+                allChoices(load, stages, speed / 2, lift / 2);
+                allChoices(load, stages, Math.min(speed + 1, 1000000), Math.min(lift + 1, 1000));
+            }
+        }
+    }
+
+    private static void allChoices(int load, int[][] stages, int speed, int lift) {
+        int options = 3 * SIX.length, all = 1, best = NO_WAY;
+        for (int k = 0; k < stages.length; k++) all *= options;
+        int[][] bestChoice = {};
+        for (int number = 0; number < all; number++) {
+            int[][] now = new int[stages.length][];
+            int rest = number, cost = 0;
+            for (int k = stages.length - 1; k >= 0; k--) {
+                now[k] = new int[] {rest % options / 3, rest % 3 + 1, stages[k][2], stages[k][3]};
+                rest /= options;
+                cost += SIX[now[k][0]][3] * now[k][1];
+            }
+            if (best != NO_WAY && cost >= best || !serves(six(load, now), speed, lift)) continue;
+            best = cost;
+            bestChoice = now;
+        }
+        StageYard x = six(load, stages);
+        String what = "load " + load + ", " + stages.length + " stages, cheapest(" + speed + ", " + lift + ")";
+        due(what, x.cheapest(speed, lift), best);
+        for (int k = 0; k < bestChoice.length; k++) {
+            due(what + ", stage " + k, x.chosen(k, 0) * 10 + x.chosen(k, 1), bestChoice[k][0] * 10 + bestChoice[k][1]);
+        }
+    }
+
+    private static boolean serves(StageYard x, int speed, int lift) {
+        for (int k = 0; k < x.count(1); k++) {
+            if (x.about(k, 8) < lift) return false;
+        }
+        return x.speed(0) >= speed;
     }
 
     private static void chosenOfNone() {

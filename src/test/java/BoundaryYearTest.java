@@ -12,6 +12,7 @@ public final class BoundaryYearTest {
         upToTheMonth();
         keptTillUsed();
         usedByThoseAhead();
+        inAnyOrder();
         eachKindRunsShort();
         mostWorth();
         leastAsBits();
@@ -164,6 +165,23 @@ public final class BoundaryYearTest {
         yearIs(same, 6, 2);
         same.deliver(0, 3, 4);
         yearIs(same, 11, 3);
+    }
+
+    /** Whatever their numbers: those of the months ahead use theirs first. */
+    private static void inAnyOrder() {
+        says(27, "(each in its END's month");
+        int[] ends = {0, 4, 7, 11};
+        for (int order = 0; order < 256; order++) {
+            StageYard x = new StageYard();
+            int seen = 0;
+            for (int f = 0; f < 4; f++) {
+                int which = order >> (2 * f) & 3;
+                seen |= 1 << which;
+                x.flight(1, 0, 0, ends[which], 1);
+                x.deliver(0, ends[which], 1);
+            }
+            if (seen == 15) yearIs(x, 4, 15);
+        }
     }
 
     private static void eachKindRunsShort() {
