@@ -9,7 +9,7 @@ import java.util.List;
  * it holds, and every refused call is made on one of two equal objects, which must be equal behind
  * it too. Nothing is asked of an object behind its 512th call.
  */
-final class Boundary {
+class Boundary {
     static final int NONE = -1, BAD = -2, STATE = -3, FULL = -4, NO_WAY = -5;
     static final int LEAST = Integer.MIN_VALUE, MOST = Integer.MAX_VALUE;
 
@@ -30,9 +30,6 @@ final class Boundary {
     private static int sentences = 0;
     private static int asked = 0;
     private static int wrong = 0;
-
-    private Boundary() {
-    }
 
     private static String documentInOneLine() {
         try {

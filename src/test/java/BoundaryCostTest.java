@@ -1,8 +1,5 @@
 /** Promises 20 to 24, the sentences that name a boundary case: costs, purchases and reuse. */
-public final class BoundaryCostTest {
-    private static final int NONE = Boundary.NONE, BAD = Boundary.BAD, STATE = Boundary.STATE, FULL = Boundary.FULL;
-    private static final int NO_WAY = Boundary.NO_WAY;
-
+public final class BoundaryCostTest extends Boundary {
     public static void main(String[] args) {
         costRanges();
         costCut();
@@ -21,15 +18,7 @@ public final class BoundaryCostTest {
         evenExactly();
         evenOfHundredths();
         evenNever();
-        Boundary.end();
-    }
-
-    private static void says(int promise, String words) {
-        Boundary.says(promise, words);
-    }
-
-    private static void due(String what, int got, int want) {
-        Boundary.due(what, got, want);
+        end();
     }
 
     /** One engine of that COST, nothing learned. */
@@ -44,11 +33,11 @@ public final class BoundaryCostTest {
 
     private static void costRanges() {
         says(20, "COST of the i-th ENGINE of a kind. NONE; BAD: i not 0 .. 999.");
-        Boundary.range("i", 0, 999, BAD, Boundary::rich, (x, i) -> x.cost(2, i));
-        Boundary.range("engine", 0, 2, NONE, Boundary::rich, (x, e) -> x.cost(e, 0));
-        Boundary.range("engine, all six", 0, 5, NONE, Boundary::full, (x, e) -> x.cost(e, 999));
-        Boundary.refused("no engine, and BAD", NONE, Boundary::rich, x -> x.cost(3, 1000));
-        Boundary.refused("no engine, and BAD", NONE, Boundary::rich, x -> x.cost(-1, -1));
+        range("i", 0, 999, BAD, Boundary::rich, (x, i) -> x.cost(2, i));
+        range("engine", 0, 2, NONE, Boundary::rich, (x, e) -> x.cost(e, 0));
+        range("engine, all six", 0, 5, NONE, Boundary::full, (x, e) -> x.cost(e, 999));
+        refused("no engine, and BAD", NONE, Boundary::rich, x -> x.cost(3, 1000));
+        refused("no engine, and BAD", NONE, Boundary::rich, x -> x.cost(-1, -1));
     }
 
     private static void costCut() {
@@ -96,8 +85,8 @@ public final class BoundaryCostTest {
 
     private static void priceWithoutStage() {
         says(21, "What the ROCKET would cost, BOUGHT now. STATE: there is no STAGE.");
-        Boundary.refused("no engine", STATE, Boundary::fresh, x -> x.price());
-        Boundary.refused("no stage", STATE, Boundary::oneEngine, x -> x.price());
+        refused("no engine", STATE, Boundary::fresh, x -> x.price());
+        refused("no stage", STATE, Boundary::oneEngine, x -> x.price());
         StageYard x = flat(5);
         x.stage(0, 1, 0, 0);
         due("one stage", x.price(), 5);
@@ -108,8 +97,8 @@ public final class BoundaryCostTest {
 
     private static void buyWithoutStage() {
         says(22, "It is BOUGHT: what it costs. STATE: there is no STAGE;");
-        Boundary.refused("no engine", STATE, Boundary::fresh, x -> x.buy());
-        Boundary.refused("no stage", STATE, Boundary::oneEngine, x -> x.buy());
+        refused("no engine", STATE, Boundary::fresh, x -> x.buy());
+        refused("no stage", STATE, Boundary::oneEngine, x -> x.buy());
         StageYard x = flat(5);
         x.stage(0, 1, 0, 0);
         due("one stage", x.buy(), 5);
@@ -179,8 +168,8 @@ public final class BoundaryCostTest {
         says(22, "FULL: more than 900 ENGINES of a kind would have been bought in all.");
         StageYard x = nineHundredBought();
         due("just 900", x.count(4), 900);
-        Boundary.refused("36 more", FULL, BoundaryCostTest::nineHundredBought, y -> y.buy());
-        Boundary.refused("one more", FULL, BoundaryCostTest::oneTooMany, y -> y.buy());
+        refused("36 more", FULL, BoundaryCostTest::nineHundredBought, y -> y.buy());
+        refused("one more", FULL, BoundaryCostTest::oneTooMany, y -> y.buy());
         due("a price all the same", x.price(), 36000);
         x.store(0, 35);
         due("35 from store, one too many", x.buy(), FULL);
@@ -226,16 +215,16 @@ public final class BoundaryCostTest {
 
     private static void keepRanges() {
         says(23, "SPEED low of a STAGE with KEEP of its STUFF kept (the last of it). NONE; BAD: above its STUFF, or not 0 .. 100.");
-        Boundary.range("keep of 600", 0, 100, BAD, BoundaryCostTest::muchStuff, (x, n) -> x.keeping(0, n));
-        Boundary.range("keep of 20", 0, 20, BAD, Boundary::rich, (x, n) -> x.keeping(1, n));
-        Boundary.range("stage", 0, 1, NONE, Boundary::rich, (x, k) -> x.keeping(k, 1));
-        Boundary.range("stage, all four", 0, 3, NONE, Boundary::full, (x, k) -> x.keeping(k, 1));
-        Boundary.refused("no stage, and BAD", NONE, Boundary::rich, x -> x.keeping(2, 101));
-        Boundary.refused("no stage, and BAD", NONE, Boundary::rich, x -> x.keeping(-1, -1));
+        range("keep of 600", 0, 100, BAD, BoundaryCostTest::muchStuff, (x, n) -> x.keeping(0, n));
+        range("keep of 20", 0, 20, BAD, Boundary::rich, (x, n) -> x.keeping(1, n));
+        range("stage", 0, 1, NONE, Boundary::rich, (x, k) -> x.keeping(k, 1));
+        range("stage, all four", 0, 3, NONE, Boundary::full, (x, k) -> x.keeping(k, 1));
+        refused("no stage, and BAD", NONE, Boundary::rich, x -> x.keeping(2, 101));
+        refused("no stage, and BAD", NONE, Boundary::rich, x -> x.keeping(-1, -1));
     }
 
     private static StageYard muchStuff() {
-        StageYard x = Boundary.small();
+        StageYard x = small();
         x.stuff(0, 600);
         return x;
     }
@@ -244,12 +233,12 @@ public final class BoundaryCostTest {
         says(23, "BAD: above its STUFF");
         int[] all = {0, 1, 99, 100};
         for (int n : all) {
-            StageYard x = Boundary.small();
+            StageYard x = small();
             x.stuff(0, n);
             due("all of " + n, x.keeping(0, n), 0);
             due("one more than " + n, x.keeping(0, n + 1), BAD);
         }
-        StageYard x = Boundary.small();
+        StageYard x = small();
         x.stuff(0, 101);
         // MASS 113 ahead: the one that is not kept.
         due("all but one of 101", x.keeping(0, 100), 2000 / 113);
@@ -258,7 +247,7 @@ public final class BoundaryCostTest {
 
     private static void keptWeighsOn() {
         says(23, "(SPEED without them; at HIGH MASS: they weigh on)");
-        StageYard x = Boundary.small();
+        StageYard x = small();
         due("none kept: 2000 by 5, 4, 3", x.keeping(0, 0), x.about(0, 6));
         due("one kept: 2000 by 5, 4", x.keeping(0, 1), 900);
         due("two kept: 2000 by 5", x.keeping(0, 2), 400);
@@ -269,12 +258,12 @@ public final class BoundaryCostTest {
 
     private static void evenRanges() {
         says(24, "BREAK EVEN of a STAGE by MEND (0 .. 200) and GEAR (0 .. 99999). NONE; BAD; -5: there is none.");
-        Boundary.range("mend", 0, 200, BAD, Boundary::rich, (x, n) -> x.even(0, n, 0));
-        Boundary.range("gear", 0, 99999, BAD, Boundary::rich, (x, n) -> x.even(0, 0, n));
-        Boundary.range("stage", 0, 1, NONE, Boundary::rich, (x, k) -> x.even(k, 0, 0));
-        Boundary.refused("no stage, BAD mend", NONE, Boundary::rich, x -> x.even(2, 201, 0));
-        Boundary.refused("no stage, BAD gear", NONE, Boundary::rich, x -> x.even(-1, 0, -1));
-        Boundary.refused("both", BAD, Boundary::rich, x -> x.even(0, -1, 100000));
+        range("mend", 0, 200, BAD, Boundary::rich, (x, n) -> x.even(0, n, 0));
+        range("gear", 0, 99999, BAD, Boundary::rich, (x, n) -> x.even(0, 0, n));
+        range("stage", 0, 1, NONE, Boundary::rich, (x, k) -> x.even(k, 0, 0));
+        refused("no stage, BAD mend", NONE, Boundary::rich, x -> x.even(2, 201, 0));
+        refused("no stage, BAD gear", NONE, Boundary::rich, x -> x.even(-1, 0, -1));
+        refused("both", BAD, Boundary::rich, x -> x.even(0, -1, 100000));
     }
 
     /** One stage of so many engines of a COST, for even(0, ..). */

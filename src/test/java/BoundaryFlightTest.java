@@ -1,7 +1,5 @@
 /** Promises 14 to 19, the sentences that name a boundary case: air, limits and flights. */
-public final class BoundaryFlightTest {
-    private static final int NONE = Boundary.NONE, BAD = Boundary.BAD, STATE = Boundary.STATE;
-
+public final class BoundaryFlightTest extends Boundary {
     public static void main(String[] args) {
         airRanges();
         airAtFirst();
@@ -37,15 +35,7 @@ public final class BoundaryFlightTest {
         safeTicks();
         safeOfLoading();
         safeOfNoStuff();
-        Boundary.end();
-    }
-
-    private static void says(int promise, String words) {
-        Boundary.says(promise, words);
-    }
-
-    private static void due(String what, int got, int want) {
-        Boundary.due(what, got, want);
+        end();
     }
 
     private static void flown(StageYard x, int ticks, int height, int pace) {
@@ -70,7 +60,7 @@ public final class BoundaryFlightTest {
      * of 10 (with a LOAD of 7 in it) above with a thrust and STUFF 1.
      */
     private static StageYard fiveUnderTen(int thrustBelow, int stuffBelow, int thrustAbove) {
-        StageYard x = Boundary.airless(new StageYard());
+        StageYard x = airless(new StageYard());
         x.engine(thrustBelow, 1, 1, 1);
         x.engine(thrustAbove, 1, 1, 1);
         x.set(0, 7);
@@ -83,10 +73,10 @@ public final class BoundaryFlightTest {
 
     private static void airRanges() {
         says(14, "AIR of a LAYER: what it was. NONE; BAD.");
-        Boundary.range("layer", 0, 9, NONE, Boundary::rich, (x, layer) -> x.air(layer, 5));
-        Boundary.range("n", 0, 999, BAD, Boundary::rich, (x, n) -> x.air(9, n));
-        Boundary.refused("layer 10, and BAD", NONE, Boundary::rich, x -> x.air(10, 1000));
-        Boundary.refused("layer -1, and BAD", NONE, Boundary::rich, x -> x.air(-1, -1));
+        range("layer", 0, 9, NONE, Boundary::rich, (x, layer) -> x.air(layer, 5));
+        range("n", 0, 999, BAD, Boundary::rich, (x, n) -> x.air(9, n));
+        refused("layer 10, and BAD", NONE, Boundary::rich, x -> x.air(10, 1000));
+        refused("layer -1, and BAD", NONE, Boundary::rich, x -> x.air(-1, -1));
         StageYard x = new StageYard();
         x.air(0, 999);
         due("it was the most", x.air(0, 0), 999);
@@ -107,7 +97,7 @@ public final class BoundaryFlightTest {
     private static void layersBegin() {
         says(14, "AIR of LAYER k (HEIGHT from 1000 k on, k 0 .. 9;");
         // Seven of 157 push 1099: by a MASS of 100 that is a PACE of 999.
-        StageYard below = Boundary.airless(new StageYard());
+        StageYard below = airless(new StageYard());
         below.engine(157, 1, 1, 1);
         below.set(0, 77);
         below.stage(0, 7, 14, 0);
@@ -119,7 +109,7 @@ public final class BoundaryFlightTest {
         below.fly();
         due("height 999 is not in layer 1", below.flown(3), 0);
         for (int k = 1; k < 10; k++) {
-            StageYard x = Boundary.airless(risingTo(1000 * k));
+            StageYard x = airless(risingTo(1000 * k));
             x.air(k, 100);
             x.fly();
             due("height " + 1000 * k + " is in layer " + k, x.flown(3), 10000 * k * k);
@@ -133,7 +123,7 @@ public final class BoundaryFlightTest {
     private static void noAirAbove() {
         says(14, "above HEIGHT 9999 there is none");
         // MASS 42, 37: PACE 3185, then 6814, so HEIGHT 9999 as the third tick begins.
-        StageYard x = Boundary.airless(new StageYard());
+        StageYard x = airless(new StageYard());
         x.engine(276, 1, 1, 1);
         x.set(0, 20);
         x.stage(0, 5, 15, 0);
@@ -173,15 +163,15 @@ public final class BoundaryFlightTest {
         says(15, "what 0 LOADING (0 .. 1000000), 1 HEIGHT (0 .. 1000000), 2 PACE (0 .. 1000000): what it was. NONE; BAD.");
         for (int what = 0; what < 3; what++) {
             int which = what;
-            Boundary.range("limit " + what, 0, 1000000, BAD, Boundary::rich, (x, n) -> x.limit(which, n));
+            range("limit " + what, 0, 1000000, BAD, Boundary::rich, (x, n) -> x.limit(which, n));
             StageYard x = new StageYard();
             x.limit(what, 1000000);
             due("it was the most", x.limit(what, 0), 1000000);
             due("it was the least", x.limit(what, 1), 0);
         }
-        Boundary.range("what", 0, 2, NONE, Boundary::rich, (x, what) -> x.limit(what, 5));
-        Boundary.refused("what 3, and BAD", NONE, Boundary::rich, x -> x.limit(3, -1));
-        Boundary.refused("what -1, and BAD", NONE, Boundary::rich, x -> x.limit(-1, 1000001));
+        range("what", 0, 2, NONE, Boundary::rich, (x, what) -> x.limit(what, 5));
+        refused("what 3, and BAD", NONE, Boundary::rich, x -> x.limit(3, -1));
+        refused("what -1, and BAD", NONE, Boundary::rich, x -> x.limit(-1, 1000001));
     }
 
     private static void limitsAtFirst() {
@@ -198,7 +188,7 @@ public final class BoundaryFlightTest {
         x.air(4, 626);
         due("above it", x.fly(), 1);
         due("at tick 1", x.flown(5), 1);
-        StageYard slow = Boundary.small();
+        StageYard slow = small();
         slow.set(0, 999);
         due("height 0 and pace 0 are not below", slow.fly(), 0);
         flown(slow, 3, 0, 0);
@@ -208,8 +198,8 @@ public final class BoundaryFlightTest {
 
     private static void noStuff() {
         says(16, "A FLIGHT: its BREAK. STATE: no STAGE has STUFF.");
-        Boundary.refused("no stage", STATE, Boundary::fresh, x -> x.fly());
-        Boundary.refused("a stage without stuff", STATE, BoundaryFlightTest::empty, x -> x.fly());
+        refused("no stage", STATE, Boundary::fresh, x -> x.fly());
+        refused("a stage without stuff", STATE, BoundaryFlightTest::empty, x -> x.fly());
         StageYard x = empty();
         for (int k = 1; k < 4; k++) x.stage(0, 1, 0, 0);
         due("four without stuff", x.fly(), STATE);
@@ -222,7 +212,7 @@ public final class BoundaryFlightTest {
 
     /** A stage without stuff, behind a flight, so that a flight in vain would be seen. */
     private static StageYard empty() {
-        StageYard x = Boundary.small();
+        StageYard x = small();
         x.fly();
         x.stuff(0, 0);
         return x;
@@ -230,7 +220,7 @@ public final class BoundaryFlightTest {
 
     private static void nothingAtFirst() {
         says(16, "HEIGHT and PACE are 0 at first.");
-        StageYard x = Boundary.small();
+        StageYard x = small();
         for (int n = 0; n < 3; n++) {
             x.fly();
             flown(x, 3, 614, 289);
@@ -245,7 +235,7 @@ public final class BoundaryFlightTest {
 
     private static void burnsWhatIsLeft() {
         says(16, "burns as many of its STUFF as it has ENGINES that work, or as it has left.");
-        StageYard x = Boundary.airless(Boundary.oneEngine());
+        StageYard x = airless(oneEngine());
         x.set(0, 0);
         x.stage(0, 2, 3, 0);
         x.fly();
@@ -318,7 +308,7 @@ public final class BoundaryFlightTest {
 
     private static void dragCutTwice() {
         says(16, "DRAG: PACE times PACE by 100, cut, times AIR of the LAYER, by 100, cut (LAYER and PACE as they are ahead of the TICK).");
-        StageYard x = Boundary.small();
+        StageYard x = small();
         x.air(0, 99);
         x.fly();
         // PACE 225: 506.25 is cut to 506; 500.94 is cut to 500.
@@ -372,7 +362,7 @@ public final class BoundaryFlightTest {
         // MASS 15, 14, then 10.
         flown(x, 3, 100 + 214 + 314, 314);
         due("both fell off", x.flown(6), 2);
-        StageYard four = Boundary.oneEngine();
+        StageYard four = oneEngine();
         for (int k = 0; k < 4; k++) four.stage(0, 1, 1, 0);
         four.fly();
         due("four ticks", four.flown(0), 4);
@@ -382,7 +372,7 @@ public final class BoundaryFlightTest {
 
     private static void fallsOffAhead() {
         says(16, "(ahead of that, if it has none as it begins).");
-        StageYard low = Boundary.oneEngine();
+        StageYard low = oneEngine();
         low.set(0, 0);
         low.stage(0, 9, 0, 99);
         low.stage(0, 5, 0, 50);
@@ -390,7 +380,7 @@ public final class BoundaryFlightTest {
         low.fly();
         flown(low, 3, 614, 289);
         due("two empty ones fell off too", low.flown(6), 3);
-        StageYard middle = Boundary.airless(new StageYard());
+        StageYard middle = airless(new StageYard());
         middle.engine(30, 1, 1, 1);
         middle.engine(20, 1, 1, 1);
         middle.set(0, 7);
@@ -405,18 +395,18 @@ public final class BoundaryFlightTest {
 
     private static void lastStuffEnds() {
         says(16, "The FLIGHT ends behind the TICK in which the last STUFF burns;");
-        StageYard one = Boundary.small();
+        StageYard one = small();
         one.stuff(0, 1);
         one.fly();
         due("1 by one engine", one.flown(0), 1);
         one.stuff(0, 600);
         one.fly();
         due("600 by one engine", one.flown(0), 600);
-        StageYard nine = Boundary.oneEngine();
+        StageYard nine = oneEngine();
         nine.stage(0, 9, 600, 0);
         nine.fly();
         due("600 by nine engines", nine.flown(0), 67);
-        StageYard high = Boundary.small();
+        StageYard high = small();
         high.stage(0, 1, 0, 0);
         high.fly();
         due("three ticks under an empty stage", high.flown(0), 3);
@@ -464,13 +454,13 @@ public final class BoundaryFlightTest {
         says(16, "BREAK of a FLIGHT: 0 none; 1 LOADING was above the limit (at which TICK first);");
         // LOADING is 0, 100 and 506.
         int[][] cases = {{0, 1, 1}, {99, 1, 1}, {100, 1, 2}, {505, 1, 2}, {506, 0, NONE}, {1000000, 0, NONE}};
-        StageYard x = Boundary.small();
+        StageYard x = small();
         for (int[] one : cases) {
             x.limit(0, one[0]);
             due("a limit of " + one[0], x.fly(), one[1]);
             due("its tick", x.flown(5), one[2]);
         }
-        StageYard still = Boundary.airless(Boundary.small());
+        StageYard still = airless(small());
         still.limit(0, 0);
         due("a loading of 0 is not above 0", still.fly(), 0);
     }
@@ -479,7 +469,7 @@ public final class BoundaryFlightTest {
         says(16, "2 HEIGHT is below at the end, else 3 PACE is.");
         // HEIGHT is 614 and PACE 289 at the end.
         int[][] cases = {{614, 289, 0}, {615, 289, 2}, {614, 290, 3}, {615, 290, 2}, {0, 1000000, 3}, {1000000, 0, 2}};
-        StageYard x = Boundary.small();
+        StageYard x = small();
         for (int[] one : cases) {
             x.limit(1, one[0]);
             x.limit(2, one[1]);
@@ -495,13 +485,13 @@ public final class BoundaryFlightTest {
 
     private static void flownOfNone() {
         says(17, "6 STAGES that fell off. NONE: none was, too.");
-        Boundary.range("what", 0, 6, NONE, Boundary::rich, (x, what) -> x.flown(what));
-        StageYard x = Boundary.small();
+        range("what", 0, 6, NONE, Boundary::rich, (x, what) -> x.flown(what));
+        StageYard x = small();
         for (int what = -1; what <= 7; what++) due("no flight yet, what " + what, x.flown(what), NONE);
         x.stuff(0, 0);
         due("refused", x.fly(), STATE);
         for (int what = 0; what <= 6; what++) due("none was, what " + what, x.flown(what), NONE);
-        StageYard asked = Boundary.small();
+        StageYard asked = small();
         asked.out(0);
         asked.safe();
         for (int what = 0; what <= 6; what++) due("out() and safe() are none, what " + what, asked.flown(what), NONE);
@@ -509,7 +499,7 @@ public final class BoundaryFlightTest {
 
     private static void flownOfTheLatest() {
         says(17, "Of the latest fly():");
-        StageYard x = Boundary.small();
+        StageYard x = small();
         x.fly();
         x.stuff(0, 0);
         due("refused", x.fly(), STATE);
@@ -526,7 +516,7 @@ public final class BoundaryFlightTest {
 
     private static void firstOfTheGreatest() {
         says(17, "3 the greatest LOADING, 4 its TICK (the first)");
-        StageYard still = Boundary.airless(Boundary.small());
+        StageYard still = airless(small());
         still.fly();
         due("no loading", still.flown(3), 0);
         due("0 in all ticks, the first", still.flown(4), 0);
@@ -544,7 +534,7 @@ public final class BoundaryFlightTest {
         x.limit(0, 15);
         due("above 15", x.fly(), 1);
         due("the first of them", x.flown(5), 1);
-        Boundary.airless(x);
+        airless(x);
         due("no air any more", x.fly(), 0);
         due("no loading", x.flown(3), 0);
         due("0 in all ticks, the first", x.flown(4), 0);
@@ -552,7 +542,7 @@ public final class BoundaryFlightTest {
 
     private static void noTickOfBreak() {
         says(17, "5 the TICK of BREAK 1 (NONE)");
-        StageYard x = Boundary.small();
+        StageYard x = small();
         x.fly();
         due("no break", x.flown(5), NONE);
         x.limit(1, 1000000);
@@ -574,7 +564,7 @@ public final class BoundaryFlightTest {
 
     private static void outRange() {
         says(18, "BAD: not 0 .. 1999; STATE: as fly().");
-        Boundary.range("tick", 0, 1999, BAD, Boundary::rich, (x, tick) -> x.out(tick));
+        range("tick", 0, 1999, BAD, Boundary::rich, (x, tick) -> x.out(tick));
         StageYard x = longOne(200);
         due("in the last of 2000 ticks", x.out(1999), 3);
         due("behind it", x.out(2000), BAD);
@@ -585,10 +575,10 @@ public final class BoundaryFlightTest {
 
     private static void outOfNoStuff() {
         says(18, "STATE: as fly().");
-        Boundary.refused("no stage", STATE, Boundary::fresh, x -> x.out(0));
-        Boundary.refused("no stuff", STATE, BoundaryFlightTest::empty, x -> x.out(1999));
-        Boundary.refused("no stage, and BAD", BAD, Boundary::fresh, x -> x.out(-1));
-        Boundary.refused("no stuff, and BAD", BAD, BoundaryFlightTest::empty, x -> x.out(2000));
+        refused("no stage", STATE, Boundary::fresh, x -> x.out(0));
+        refused("no stuff", STATE, BoundaryFlightTest::empty, x -> x.out(1999));
+        refused("no stage, and BAD", BAD, Boundary::fresh, x -> x.out(-1));
+        refused("no stuff, and BAD", BAD, BoundaryFlightTest::empty, x -> x.out(2000));
     }
 
     /** The flight with an engine out comes to just that HEIGHT. */
@@ -612,12 +602,12 @@ public final class BoundaryFlightTest {
         y.stage(1, 1, 1, 0);
         comesTo(y, 0, 100);
         // An empty stage below is gone ahead of tick 0, so the engine is one of the next.
-        StageYard z = Boundary.airless(Boundary.oneEngine());
+        StageYard z = airless(oneEngine());
         z.set(0, 0);
         z.stage(0, 1, 0, 9);
         z.stage(0, 2, 3, 0);
         comesTo(z, 0, 66 + 166 + 316);
-        StageYard only = Boundary.small();
+        StageYard only = small();
         due("the only stage is lost, on the ground", only.out(0), 0);
         only.limit(2, 1);
         due("without any pace", only.out(0), 3);
@@ -627,7 +617,7 @@ public final class BoundaryFlightTest {
 
     private static void outWithTwoEngines() {
         says(18, "AN ENGINE OUT from TICK t on: one of the STAGE that burns then works no more");
-        StageYard x = Boundary.airless(Boundary.oneEngine());
+        StageYard x = airless(oneEngine());
         x.set(0, 0);
         x.stage(0, 2, 3, 0);
         comesTo(x, 0, 66 + 166 + 316);
@@ -660,7 +650,7 @@ public final class BoundaryFlightTest {
         due("pace of the whole flight", x.out(3), 3);
         x.limit(2, 314);
         due("just so much", x.out(3), 0);
-        StageYard loaded = Boundary.small();
+        StageYard loaded = small();
         loaded.limit(0, 99);
         due("out in the tick of the break", loaded.out(1), 0);
         due("out behind it", loaded.out(2), 1);
@@ -668,7 +658,7 @@ public final class BoundaryFlightTest {
 
     private static void outLeavesFlown() {
         says(18, "(What flown() tells stays.)");
-        StageYard x = Boundary.small();
+        StageYard x = small();
         x.out(0);
         due("no flight", x.flown(0), NONE);
         x.fly();
@@ -698,7 +688,7 @@ public final class BoundaryFlightTest {
         StageYard down = longOne(600);
         down.limit(2, 0);
         due("all of 2000 ticks", down.safe(), 2000);
-        StageYard one = Boundary.small();
+        StageYard one = small();
         one.stuff(0, 1);
         due("the only tick", one.safe(), 1);
         // Two below and one above come to 628 and 300, the whole flight to 700.
@@ -717,7 +707,7 @@ public final class BoundaryFlightTest {
     private static void safeOfLoading() {
         says(19, "from which on AN ENGINE OUT leaves BREAK 0.");
         int[][] cases = {{0, 2}, {99, 2}, {100, 3}, {505, 3}, {506, 3}};
-        StageYard x = Boundary.small();
+        StageYard x = small();
         for (int[] one : cases) {
             x.limit(0, one[0]);
             due("a limit of " + one[0], x.safe(), one[1]);
@@ -739,7 +729,7 @@ public final class BoundaryFlightTest {
 
     private static void safeOfNoStuff() {
         says(19, "leaves BREAK 0. STATE.");
-        Boundary.refused("no stage", STATE, Boundary::fresh, x -> x.safe());
-        Boundary.refused("no stuff", STATE, BoundaryFlightTest::empty, x -> x.safe());
+        refused("no stage", STATE, Boundary::fresh, x -> x.safe());
+        refused("no stuff", STATE, BoundaryFlightTest::empty, x -> x.safe());
     }
 }

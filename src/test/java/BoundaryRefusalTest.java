@@ -1,7 +1,5 @@
 /** Part 6 of the document, over all calls: which refusal is told, and that it changes nothing. */
-public final class BoundaryRefusalTest {
-    private static final int NONE = Boundary.NONE, BAD = Boundary.BAD, STATE = Boundary.STATE, FULL = Boundary.FULL;
-
+public final class BoundaryRefusalTest extends Boundary {
     interface Wide {
         int on(StageYard x, int[] n);
     }
@@ -11,7 +9,7 @@ public final class BoundaryRefusalTest {
         stateBehindThose();
         fullBehindThose();
         theLastCall();
-        Boundary.end();
+        end();
     }
 
     /** A number of a call in a rich yard: its range there, and what is told of one off it. */
@@ -24,7 +22,7 @@ public final class BoundaryRefusalTest {
     }
 
     private static void firstOneTold() {
-        Boundary.says(1, "REFUSALS, of several the first one told: NONE there is no such ENGINE, STAGE, LAYER, FLIGHT, month, what, i; BAD a number is not as told;");
+        says(1, "REFUSALS, of several the first one told: NONE there is no such ENGINE, STAGE, LAYER, FLIGHT, month, what, i; BAD a number is not as told;");
         every("engine", (x, n) -> x.engine(n[0], n[1], n[2], n[3]), bad(1, 999), bad(1, 999), bad(1, 99), bad(1, 9999));
         every("store", (x, n) -> x.store(n[0], n[1]), none(2), bad(1, 99));
         every("stage", (x, n) -> x.stage(n[0], n[1], n[2], n[3]), none(2), bad(1, 9), bad(0, 600), bad(0, 99));
@@ -64,43 +62,43 @@ public final class BoundaryRefusalTest {
                 if (off > 0 && want != NONE) want = ranges[k][2];
                 text.append(' ').append(n[k]);
             }
-            Boundary.Yard yard = name.equals("keeping") ? BoundaryRefusalTest::oneStage : Boundary::rich;
-            Boundary.refused(text.toString(), want, yard, x -> call.on(x, n));
+            Yard yard = name.equals("keeping") ? BoundaryRefusalTest::oneStage : Boundary::rich;
+            refused(text.toString(), want, yard, x -> call.on(x, n));
         }
     }
 
     /** With a STAGE of 40, so that what keeping() may keep of it is told by its STUFF. */
     private static StageYard oneStage() {
-        StageYard x = Boundary.rich();
+        StageYard x = rich();
         x.undo();
         return x;
     }
 
     private static void stateBehindThose() {
-        Boundary.says(1, "STATE as told;");
-        Boundary.Yard[] yards = {Boundary::fresh, Boundary::oneEngine};
-        for (Boundary.Yard yard : yards) {
-            Boundary.refused("undo", STATE, yard, x -> x.undo());
-            Boundary.refused("split", STATE, yard, x -> x.split(0, 1));
-            Boundary.refused("split, BAD", BAD, yard, x -> x.split(0, 0));
-            Boundary.refused("cheapest", STATE, yard, x -> x.cheapest(0, 0));
-            Boundary.refused("cheapest, BAD", BAD, yard, x -> x.cheapest(0, -1));
-            Boundary.refused("fly", STATE, yard, x -> x.fly());
-            Boundary.refused("out", STATE, yard, x -> x.out(0));
-            Boundary.refused("out, BAD", BAD, yard, x -> x.out(-1));
-            Boundary.refused("safe", STATE, yard, x -> x.safe());
-            Boundary.refused("price", STATE, yard, x -> x.price());
-            Boundary.refused("buy", STATE, yard, x -> x.buy());
+        says(1, "STATE as told;");
+        Yard[] yards = {Boundary::fresh, Boundary::oneEngine};
+        for (Yard yard : yards) {
+            refused("undo", STATE, yard, x -> x.undo());
+            refused("split", STATE, yard, x -> x.split(0, 1));
+            refused("split, BAD", BAD, yard, x -> x.split(0, 0));
+            refused("cheapest", STATE, yard, x -> x.cheapest(0, 0));
+            refused("cheapest, BAD", BAD, yard, x -> x.cheapest(0, -1));
+            refused("fly", STATE, yard, x -> x.fly());
+            refused("out", STATE, yard, x -> x.out(0));
+            refused("out, BAD", BAD, yard, x -> x.out(-1));
+            refused("safe", STATE, yard, x -> x.safe());
+            refused("price", STATE, yard, x -> x.price());
+            refused("buy", STATE, yard, x -> x.buy());
         }
     }
 
     private static void fullBehindThose() {
-        Boundary.says(1, "FULL. They change nothing.");
-        Boundary.refused("engine", FULL, Boundary::full, x -> x.engine(1, 1, 1, 1));
-        Boundary.refused("store", FULL, Boundary::full, x -> x.store(0, 1));
-        Boundary.refused("stage", FULL, Boundary::full, x -> x.stage(0, 1, 0, 0));
-        Boundary.refused("flight", FULL, Boundary::full, x -> x.flight(0, 0, 0, 0, 0));
-        Boundary.refused("all of them, again and again", FULL, Boundary::full, x -> {
+        says(1, "FULL. They change nothing.");
+        refused("engine", FULL, Boundary::full, x -> x.engine(1, 1, 1, 1));
+        refused("store", FULL, Boundary::full, x -> x.store(0, 1));
+        refused("stage", FULL, Boundary::full, x -> x.stage(0, 1, 0, 0));
+        refused("flight", FULL, Boundary::full, x -> x.flight(0, 0, 0, 0, 0));
+        refused("all of them, again and again", FULL, Boundary::full, x -> {
             int told = FULL;
             for (int n = 0; n < 20; n++) {
                 told = Math.max(told, x.engine(1, 1, 1, 1));
@@ -113,14 +111,14 @@ public final class BoundaryRefusalTest {
     }
 
     private static void theLastCall() {
-        Boundary.says(1, "An object is used for at most 512 calls after it has been made");
-        StageYard x = Boundary.small();
+        says(1, "An object is used for at most 512 calls after it has been made");
+        StageYard x = small();
         for (int n = 3; n < 508; n++) {
             x.stuff(0, n % 2 == 0 ? 3 : 600);
         }
-        Boundary.due("call 509", x.stuff(0, 3), 600);
-        Boundary.due("call 510", x.fly(), 0);
-        Boundary.due("call 511", x.flown(1), 614);
-        Boundary.due("call 512", x.speed(0), 1566);
+        due("call 509", x.stuff(0, 3), 600);
+        due("call 510", x.fly(), 0);
+        due("call 511", x.flown(1), 614);
+        due("call 512", x.speed(0), 1566);
     }
 }

@@ -1,7 +1,5 @@
 /** Promises 1 to 9, the sentences that name a boundary case: engines, stages and their speeds. */
-public final class BoundaryRocketTest {
-    private static final int NONE = Boundary.NONE, BAD = Boundary.BAD, STATE = Boundary.STATE, FULL = Boundary.FULL;
-
+public final class BoundaryRocketTest extends Boundary {
     public static void main(String[] args) {
         noEnginesNoStages();
         atFirst();
@@ -28,15 +26,7 @@ public final class BoundaryRocketTest {
         liftCut();
         speedOfNoWhat();
         heaviest();
-        Boundary.end();
-    }
-
-    private static void says(int promise, String words) {
-        Boundary.says(promise, words);
-    }
-
-    private static void due(String what, int got, int want) {
-        Boundary.due(what, got, want);
+        end();
     }
 
     private static void noEnginesNoStages() {
@@ -44,17 +34,17 @@ public final class BoundaryRocketTest {
         StageYard x = new StageYard();
         due("count(0)", x.count(0), 0);
         due("count(1)", x.count(1), 0);
-        Boundary.refused("store", NONE, Boundary::fresh, y -> y.store(0, 1));
-        Boundary.refused("stage", NONE, Boundary::fresh, y -> y.stage(0, 1, 1, 1));
-        Boundary.refused("cost", NONE, Boundary::fresh, y -> y.cost(0, 0));
-        Boundary.refused("undo", STATE, Boundary::fresh, y -> y.undo());
-        Boundary.refused("stuff", NONE, Boundary::fresh, y -> y.stuff(0, 1));
-        Boundary.refused("about", NONE, Boundary::fresh, y -> y.about(0, 0));
-        Boundary.refused("keeping", NONE, Boundary::fresh, y -> y.keeping(0, 0));
-        Boundary.refused("even", NONE, Boundary::fresh, y -> y.even(0, 0, 0));
-        Boundary.refused("fly", STATE, Boundary::fresh, y -> y.fly());
-        Boundary.refused("price", STATE, Boundary::fresh, y -> y.price());
-        Boundary.refused("buy", STATE, Boundary::fresh, y -> y.buy());
+        refused("store", NONE, Boundary::fresh, y -> y.store(0, 1));
+        refused("stage", NONE, Boundary::fresh, y -> y.stage(0, 1, 1, 1));
+        refused("cost", NONE, Boundary::fresh, y -> y.cost(0, 0));
+        refused("undo", STATE, Boundary::fresh, y -> y.undo());
+        refused("stuff", NONE, Boundary::fresh, y -> y.stuff(0, 1));
+        refused("about", NONE, Boundary::fresh, y -> y.about(0, 0));
+        refused("keeping", NONE, Boundary::fresh, y -> y.keeping(0, 0));
+        refused("even", NONE, Boundary::fresh, y -> y.even(0, 0, 0));
+        refused("fly", STATE, Boundary::fresh, y -> y.fly());
+        refused("price", STATE, Boundary::fresh, y -> y.price());
+        refused("buy", STATE, Boundary::fresh, y -> y.buy());
         StageYard other = new StageYard();
         other.engine(1, 1, 1, 1);
         other.stage(0, 1, 1, 1);
@@ -65,7 +55,7 @@ public final class BoundaryRocketTest {
     private static void atFirst() {
         says(1, "how many are in STORE (0 .. 99; 0 at first)");
         due("in store, no engine", new StageYard().count(3), 0);
-        StageYard x = Boundary.oneEngine();
+        StageYard x = oneEngine();
         due("in store, one engine", x.count(3), 0);
         due("the first that comes", x.store(0, 1), 1);
         says(1, "(1 .. 50; 10 at first)");
@@ -79,12 +69,12 @@ public final class BoundaryRocketTest {
 
     private static void engineRanges() {
         says(2, "THRUST, EXHAUST (1 .. 999 each)");
-        Boundary.range("thrust", 1, 999, BAD, Boundary::rich, (x, n) -> x.engine(n, 5, 5, 5));
-        Boundary.range("exhaust", 1, 999, BAD, Boundary::rich, (x, n) -> x.engine(5, n, 5, 5));
+        range("thrust", 1, 999, BAD, Boundary::rich, (x, n) -> x.engine(n, 5, 5, 5));
+        range("exhaust", 1, 999, BAD, Boundary::rich, (x, n) -> x.engine(5, n, 5, 5));
         says(2, "MASS (1 .. 99)");
-        Boundary.range("mass", 1, 99, BAD, Boundary::rich, (x, n) -> x.engine(5, 5, n, 5));
+        range("mass", 1, 99, BAD, Boundary::rich, (x, n) -> x.engine(5, 5, n, 5));
         says(2, "COST (1 .. 9999)");
-        Boundary.range("cost", 1, 9999, BAD, Boundary::rich, (x, n) -> x.engine(5, 5, 5, n));
+        range("cost", 1, 9999, BAD, Boundary::rich, (x, n) -> x.engine(5, 5, 5, n));
         StageYard x = new StageYard();
         x.engine(1, 1, 1, 1);
         x.engine(999, 999, 99, 9999);
@@ -110,22 +100,22 @@ public final class BoundaryRocketTest {
         due("there are six", x.count(0), 6);
         due("the last is there", x.cost(5, 0), 5);
         due("there is none behind it", x.cost(6, 0), NONE);
-        Boundary.refused("one too many", FULL, Boundary::full, y -> y.engine(7, 7, 7, 7));
+        refused("one too many", FULL, Boundary::full, y -> y.engine(7, 7, 7, 7));
     }
 
     private static void engineRefusals() {
         says(2, "An ENGINE more: its number. BAD; FULL.");
-        Boundary.refused("BAD thrust, and full", BAD, Boundary::full, x -> x.engine(0, 7, 7, 7));
-        Boundary.refused("BAD exhaust, and full", BAD, Boundary::full, x -> x.engine(7, 1000, 7, 7));
-        Boundary.refused("BAD mass, and full", BAD, Boundary::full, x -> x.engine(7, 7, 100, 7));
-        Boundary.refused("BAD cost, and full", BAD, Boundary::full, x -> x.engine(7, 7, 7, 0));
-        Boundary.refused("all four", BAD, Boundary::rich, x -> x.engine(0, 1000, 0, 10000));
+        refused("BAD thrust, and full", BAD, Boundary::full, x -> x.engine(0, 7, 7, 7));
+        refused("BAD exhaust, and full", BAD, Boundary::full, x -> x.engine(7, 1000, 7, 7));
+        refused("BAD mass, and full", BAD, Boundary::full, x -> x.engine(7, 7, 100, 7));
+        refused("BAD cost, and full", BAD, Boundary::full, x -> x.engine(7, 7, 7, 0));
+        refused("all four", BAD, Boundary::rich, x -> x.engine(0, 1000, 0, 10000));
     }
 
     private static void storeRange() {
         says(3, "n (1 .. 99) of an ENGINE come to STORE: how many there are.");
-        Boundary.range("n", 1, 99, BAD, Boundary::oneEngine, (x, n) -> x.store(0, n));
-        StageYard x = Boundary.oneEngine();
+        range("n", 1, 99, BAD, Boundary::oneEngine, (x, n) -> x.store(0, n));
+        StageYard x = oneEngine();
         x.engine(1, 1, 1, 1);
         due("the least", x.store(0, 1), 1);
         due("the most", x.store(1, 99), 99);
@@ -134,12 +124,12 @@ public final class BoundaryRocketTest {
 
     private static void storeOfNoEngine() {
         says(3, "NONE; BAD; FULL: more than 99.");
-        Boundary.range("engine", 0, 2, NONE, Boundary::rich, (x, e) -> x.store(e, 1));
-        Boundary.range("engine, all six", 0, 5, NONE, BoundaryRocketTest::sixWithoutStore, (x, e) -> x.store(e, 1));
-        Boundary.refused("no engine, and too few", NONE, Boundary::rich, x -> x.store(3, 0));
-        Boundary.refused("no engine, and too many", NONE, Boundary::rich, x -> x.store(-1, 100));
-        Boundary.refused("too many, and full", BAD, Boundary::full, x -> x.store(0, 100));
-        Boundary.refused("too few, and full", BAD, Boundary::full, x -> x.store(0, 0));
+        range("engine", 0, 2, NONE, Boundary::rich, (x, e) -> x.store(e, 1));
+        range("engine, all six", 0, 5, NONE, BoundaryRocketTest::sixWithoutStore, (x, e) -> x.store(e, 1));
+        refused("no engine, and too few", NONE, Boundary::rich, x -> x.store(3, 0));
+        refused("no engine, and too many", NONE, Boundary::rich, x -> x.store(-1, 100));
+        refused("too many, and full", BAD, Boundary::full, x -> x.store(0, 100));
+        refused("too few, and full", BAD, Boundary::full, x -> x.store(0, 0));
     }
 
     private static StageYard sixWithoutStore() {
@@ -150,15 +140,15 @@ public final class BoundaryRocketTest {
 
     private static void storeFull() {
         says(3, "FULL: more than 99.");
-        StageYard x = Boundary.oneEngine();
+        StageYard x = oneEngine();
         due("98", x.store(0, 98), 98);
         due("two more would be 100", x.store(0, 2), FULL);
         due("99 would be 197", x.store(0, 99), FULL);
         due("just 99", x.store(0, 1), 99);
         due("100", x.store(0, 1), FULL);
         due("they are 99", x.count(3), 99);
-        Boundary.refused("one more", FULL, Boundary::full, y -> y.store(5, 1));
-        Boundary.refused("99 more", FULL, Boundary::full, y -> y.store(0, 99));
+        refused("one more", FULL, Boundary::full, y -> y.store(5, 1));
+        refused("99 more", FULL, Boundary::full, y -> y.store(0, 99));
         x.set(0, 0);
         x.stage(0, 1, 0, 0);
         x.buy();
@@ -167,12 +157,12 @@ public final class BoundaryRocketTest {
 
     private static void stageRanges() {
         says(4, "how many (1 .. 9)");
-        Boundary.range("many", 1, 9, BAD, Boundary::rich, (x, n) -> x.stage(0, n, 1, 1));
+        range("many", 1, 9, BAD, Boundary::rich, (x, n) -> x.stage(0, n, 1, 1));
         says(4, "STUFF (0 .. 600)");
-        Boundary.range("stuff", 0, 600, BAD, Boundary::rich, (x, n) -> x.stage(0, 1, n, 1));
+        range("stuff", 0, 600, BAD, Boundary::rich, (x, n) -> x.stage(0, 1, n, 1));
         says(4, "a FRAME (0 .. 99)");
-        Boundary.range("frame", 0, 99, BAD, Boundary::rich, (x, n) -> x.stage(0, 1, 1, n));
-        StageYard x = Boundary.oneEngine();
+        range("frame", 0, 99, BAD, Boundary::rich, (x, n) -> x.stage(0, 1, 1, n));
+        StageYard x = oneEngine();
         x.stage(0, 1, 0, 0);
         x.stage(0, 9, 600, 99);
         int[] least = {0, 1, 0, 0, 1}, most = {0, 9, 600, 99, 9 + 60 + 99};
@@ -184,24 +174,24 @@ public final class BoundaryRocketTest {
 
     private static void stageOfNoEngine() {
         says(4, "A STAGE more, above all: how many. NONE; BAD; FULL.");
-        Boundary.range("engine", 0, 2, NONE, Boundary::rich, (x, e) -> x.stage(e, 1, 1, 1));
-        Boundary.refused("no engine, BAD many", NONE, Boundary::rich, x -> x.stage(3, 0, 1, 1));
-        Boundary.refused("no engine, BAD stuff", NONE, Boundary::rich, x -> x.stage(3, 1, 601, 1));
-        Boundary.refused("no engine, BAD frame", NONE, Boundary::rich, x -> x.stage(-1, 1, 1, 100));
-        Boundary.refused("no engine, and full", NONE, Boundary::full, x -> x.stage(6, 1, 1, 1));
-        Boundary.refused("BAD many, and full", BAD, Boundary::full, x -> x.stage(0, 10, 1, 1));
-        Boundary.refused("BAD stuff, and full", BAD, Boundary::full, x -> x.stage(0, 1, -1, 1));
-        Boundary.refused("BAD frame, and full", BAD, Boundary::full, x -> x.stage(0, 1, 1, -1));
+        range("engine", 0, 2, NONE, Boundary::rich, (x, e) -> x.stage(e, 1, 1, 1));
+        refused("no engine, BAD many", NONE, Boundary::rich, x -> x.stage(3, 0, 1, 1));
+        refused("no engine, BAD stuff", NONE, Boundary::rich, x -> x.stage(3, 1, 601, 1));
+        refused("no engine, BAD frame", NONE, Boundary::rich, x -> x.stage(-1, 1, 1, 100));
+        refused("no engine, and full", NONE, Boundary::full, x -> x.stage(6, 1, 1, 1));
+        refused("BAD many, and full", BAD, Boundary::full, x -> x.stage(0, 10, 1, 1));
+        refused("BAD stuff, and full", BAD, Boundary::full, x -> x.stage(0, 1, -1, 1));
+        refused("BAD frame, and full", BAD, Boundary::full, x -> x.stage(0, 1, 1, -1));
     }
 
     private static void fourStages() {
         says(4, "stage 0 lowest (4 at most)");
-        StageYard x = Boundary.oneEngine();
+        StageYard x = oneEngine();
         for (int k = 1; k <= 4; k++) due("stage more", x.stage(0, k, 0, 0), k);
         due("a fifth", x.stage(0, 5, 0, 0), FULL);
         due("there are four", x.count(1), 4);
         for (int k = 0; k < 4; k++) due("stage " + k + " has", x.about(k, 1), k + 1);
-        Boundary.refused("one too many", FULL, Boundary::full, y -> y.stage(0, 1, 1, 1));
+        refused("one too many", FULL, Boundary::full, y -> y.stage(0, 1, 1, 1));
         x.undo();
         due("room again", x.stage(0, 9, 0, 0), 4);
         due("it is the upper one", x.about(3, 1), 9);
@@ -209,7 +199,7 @@ public final class BoundaryRocketTest {
 
     private static void undoDownToNone() {
         says(5, "The upper STAGE goes: how many there are. STATE: there is none.");
-        StageYard x = Boundary.oneEngine();
+        StageYard x = oneEngine();
         for (int k = 1; k <= 4; k++) x.stage(0, k, 0, 0);
         for (int k = 3; k >= 0; k--) {
             due("undo", x.undo(), k);
@@ -221,13 +211,13 @@ public final class BoundaryRocketTest {
         due("none, not fewer", x.count(1), 0);
         due("the first again", x.stage(0, 7, 0, 0), 1);
         due("it is stage 0", x.about(0, 1), 7);
-        Boundary.refused("engines, but no stage", STATE, Boundary::oneEngine, y -> y.undo());
+        refused("engines, but no stage", STATE, Boundary::oneEngine, y -> y.undo());
     }
 
     private static void stuffRange() {
         says(6, "STUFF of a STAGE: what it was. NONE; BAD.");
-        Boundary.range("n", 0, 600, BAD, Boundary::rich, (x, n) -> x.stuff(1, n));
-        StageYard x = Boundary.small();
+        range("n", 0, 600, BAD, Boundary::rich, (x, n) -> x.stuff(1, n));
+        StageYard x = small();
         due("to the most", x.stuff(0, 600), 3);
         due("mass of the most: 1, 60 and 600", x.about(0, 5), 661);
         due("to the least", x.stuff(0, 0), 600);
@@ -237,22 +227,22 @@ public final class BoundaryRocketTest {
 
     private static void stuffOfNoStage() {
         says(6, "STUFF of a STAGE: what it was. NONE; BAD.");
-        Boundary.range("stage", 0, 1, NONE, Boundary::rich, (x, k) -> x.stuff(k, 1));
-        Boundary.range("stage, all four", 0, 3, NONE, Boundary::full, (x, k) -> x.stuff(k, 1));
-        Boundary.refused("no stage, and too much", NONE, Boundary::rich, x -> x.stuff(2, 601));
-        Boundary.refused("no stage, and too little", NONE, Boundary::rich, x -> x.stuff(-1, -1));
-        StageYard x = Boundary.small();
+        range("stage", 0, 1, NONE, Boundary::rich, (x, k) -> x.stuff(k, 1));
+        range("stage, all four", 0, 3, NONE, Boundary::full, (x, k) -> x.stuff(k, 1));
+        refused("no stage, and too much", NONE, Boundary::rich, x -> x.stuff(2, 601));
+        refused("no stage, and too little", NONE, Boundary::rich, x -> x.stuff(-1, -1));
+        StageYard x = small();
         x.undo();
         due("one that went", x.stuff(0, 1), NONE);
     }
 
     private static void setRanges() {
         says(7, "a LOAD (0 .. 999; 10 at first)");
-        Boundary.range("load", 0, 999, BAD, Boundary::rich, (x, n) -> x.set(0, n));
+        range("load", 0, 999, BAD, Boundary::rich, (x, n) -> x.set(0, n));
         says(7, "TANKS weigh SHARE hundredths of what they are for (1 .. 50; 10 at first)");
-        Boundary.range("share", 1, 50, BAD, Boundary::rich, (x, n) -> x.set(1, n));
+        range("share", 1, 50, BAD, Boundary::rich, (x, n) -> x.set(1, n));
         says(7, "LEARN (50 .. 100; 90 at first)");
-        Boundary.range("learn", 50, 100, BAD, Boundary::rich, (x, n) -> x.set(2, n));
+        range("learn", 50, 100, BAD, Boundary::rich, (x, n) -> x.set(2, n));
         int[] least = {0, 1, 50}, most = {999, 50, 100};
         StageYard x = new StageYard();
         for (int what = 0; what < 3; what++) {
@@ -264,17 +254,17 @@ public final class BoundaryRocketTest {
 
     private static void setOfNoWhat() {
         says(7, "what 0 LOAD, 1 SHARE, 2 LEARN: what it was. NONE; BAD.");
-        Boundary.range("what", 0, 2, NONE, Boundary::rich, (x, what) -> x.set(what, 50));
-        Boundary.refused("what 3, and BAD", NONE, Boundary::rich, x -> x.set(3, -1));
-        Boundary.refused("what -1, and BAD", NONE, Boundary::rich, x -> x.set(-1, Boundary.MOST));
+        range("what", 0, 2, NONE, Boundary::rich, (x, what) -> x.set(what, 50));
+        refused("what 3, and BAD", NONE, Boundary::rich, x -> x.set(3, -1));
+        refused("what -1, and BAD", NONE, Boundary::rich, x -> x.set(-1, MOST));
     }
 
     private static void aboutOfNone() {
         says(8, "5 MASS ahead of its first burn, 6 SPEED low, 7 high, 8 LIFT. NONE.");
-        Boundary.range("what", 0, 8, NONE, Boundary::rich, (x, what) -> x.about(1, what));
-        Boundary.range("stage", 0, 1, NONE, Boundary::rich, (x, k) -> x.about(k, 8));
-        Boundary.range("stage, all four", 0, 3, NONE, Boundary::full, (x, k) -> x.about(k, 5));
-        Boundary.refused("neither", NONE, Boundary::rich, x -> x.about(2, 9));
+        range("what", 0, 8, NONE, Boundary::rich, (x, what) -> x.about(1, what));
+        range("stage", 0, 1, NONE, Boundary::rich, (x, k) -> x.about(k, 8));
+        range("stage, all four", 0, 3, NONE, Boundary::full, (x, k) -> x.about(k, 5));
+        refused("neither", NONE, Boundary::rich, x -> x.about(2, 9));
     }
 
     private static void tanksRoundedUp() {
@@ -284,7 +274,7 @@ public final class BoundaryRocketTest {
             {1, 0, 0}, {1, 1, 1}, {1, 100, 1}, {1, 101, 2}, {1, 600, 6}, {1, 599, 6},
             {50, 0, 0}, {50, 1, 1}, {50, 2, 1}, {50, 3, 2}, {50, 600, 300}, {50, 599, 300}, {33, 3, 1}, {34, 3, 2}};
         for (int[] one : cases) {
-            StageYard x = Boundary.small();
+            StageYard x = small();
             x.set(1, one[0]);
             x.stuff(0, one[1]);
             due("an engine of 1 and the tank for " + one[1] + " by " + one[0], x.about(0, 4), 1 + one[2]);
@@ -293,7 +283,7 @@ public final class BoundaryRocketTest {
 
     private static void massAhead() {
         says(8, "MASS ahead of a burn of a STAGE: it, all above it, the LOAD, and what STUFF it has left.");
-        StageYard x = Boundary.oneEngine();
+        StageYard x = oneEngine();
         x.set(0, 0);
         x.stage(0, 1, 1, 1);
         x.stage(0, 2, 10, 0);
@@ -309,7 +299,7 @@ public final class BoundaryRocketTest {
 
     private static void lowCutHighUp() {
         says(8, "each gives LOW: EXHAUST times 1000 by the MASS ahead of it, cut;");
-        StageYard x = Boundary.small();
+        StageYard x = small();
         due("2000 by 5 and 4 just so, by 3 cut", x.about(0, 6), 400 + 500 + 666);
         says(8, "HIGH: EXHAUST times 1000 by the MASS behind it, rounded up.");
         due("2000 by 4 and 2 just so, by 3 up", x.about(0, 7), 500 + 667 + 1000);
@@ -330,7 +320,7 @@ public final class BoundaryRocketTest {
         says(9, "SPEED (low, high) of a STAGE: the sum of all; of the ROCKET: of all STAGES.");
         due("low of no stage", new StageYard().speed(0), 0);
         due("high of no stage", new StageYard().speed(1), 0);
-        StageYard x = Boundary.small();
+        StageYard x = small();
         x.stuff(0, 0);
         due("low of a stage without stuff", x.about(0, 6), 0);
         due("high of a stage without stuff", x.about(0, 7), 0);
@@ -367,7 +357,7 @@ public final class BoundaryRocketTest {
 
     private static void liftCut() {
         says(8, "LIFT of a STAGE: hundredths of its THRUST together by the MASS ahead of its first burn, cut.");
-        StageYard x = Boundary.small();
+        StageYard x = small();
         due("1000 by 5 just so", x.about(0, 8), 200);
         x.set(0, 1);
         due("1000 by 6 cut", x.about(0, 8), 166);
@@ -384,8 +374,8 @@ public final class BoundaryRocketTest {
 
     private static void speedOfNoWhat() {
         says(9, "SPEED of the ROCKET: low (0), high (1). NONE.");
-        Boundary.range("what", 0, 1, NONE, Boundary::rich, (x, what) -> x.speed(what));
-        Boundary.refused("what 2 of no stage", NONE, Boundary::fresh, x -> x.speed(2));
+        range("what", 0, 1, NONE, Boundary::rich, (x, what) -> x.speed(what));
+        refused("what 2 of no stage", NONE, Boundary::fresh, x -> x.speed(2));
     }
 
     /** The sums at their largest wrap nowhere. */

@@ -1,7 +1,5 @@
 /** Promises 10 to 13, the sentences that name a boundary case: the best split, the cheapest engines. */
-public final class BoundarySearchTest {
-    private static final int NONE = Boundary.NONE, BAD = Boundary.BAD, STATE = Boundary.STATE, NO_WAY = Boundary.NO_WAY;
-
+public final class BoundarySearchTest extends Boundary {
     public static void main(String[] args) {
         splitRanges();
         splitOfNothing();
@@ -23,20 +21,12 @@ public final class BoundarySearchTest {
         cheapestByAllChoices();
         chosenOfNone();
         chosenOfTheLatest();
-        Boundary.end();
-    }
-
-    private static void says(int promise, String words) {
-        Boundary.says(promise, words);
-    }
-
-    private static void due(String what, int got, int want) {
-        Boundary.due(what, got, want);
+        end();
     }
 
     /** The first stages of a yard with the small engine and no LOAD, each without STUFF and FRAME. */
     private static StageYard bare(int stages) {
-        StageYard x = Boundary.oneEngine();
+        StageYard x = oneEngine();
         x.set(0, 0);
         for (int k = 0; k < stages; k++) x.stage(0, 1, 0, 0);
         return x;
@@ -46,15 +36,15 @@ public final class BoundarySearchTest {
 
     private static void splitRanges() {
         says(10, "THE SPLIT of so many LOTS (0 .. 20) of a size (1 .. 30) over the STAGES");
-        Boundary.range("lots", 0, 20, BAD, Boundary::rich, (x, n) -> x.split(n, 1));
-        Boundary.range("size", 1, 30, BAD, Boundary::rich, (x, n) -> x.split(1, n));
-        Boundary.refused("both", BAD, Boundary::rich, x -> x.split(21, 0));
-        Boundary.refused("a size of 0 for no lots", BAD, Boundary::rich, x -> x.split(0, 0));
+        range("lots", 0, 20, BAD, Boundary::rich, (x, n) -> x.split(n, 1));
+        range("size", 1, 30, BAD, Boundary::rich, (x, n) -> x.split(1, n));
+        refused("both", BAD, Boundary::rich, x -> x.split(21, 0));
+        refused("a size of 0 for no lots", BAD, Boundary::rich, x -> x.split(0, 0));
     }
 
     private static void splitOfNothing() {
         says(10, "STUFF of each STAGE becomes some LOTS");
-        StageYard x = Boundary.rich();
+        StageYard x = rich();
         due("no lots of 1", x.split(0, 1), 0);
         due("no lots of 30", x.split(0, 30), 0);
         due("none below", x.lots(0), 0);
@@ -89,10 +79,10 @@ public final class BoundarySearchTest {
 
     private static void splitWithoutStage() {
         says(10, "BAD; STATE: there is no STAGE.");
-        Boundary.refused("no stage, no engine", STATE, Boundary::fresh, x -> x.split(1, 1));
-        Boundary.refused("no stage, an engine", STATE, Boundary::oneEngine, x -> x.split(0, 1));
-        Boundary.refused("BAD lots, and no stage", BAD, Boundary::fresh, x -> x.split(-1, 1));
-        Boundary.refused("BAD size, and no stage", BAD, Boundary::oneEngine, x -> x.split(1, 31));
+        refused("no stage, no engine", STATE, Boundary::fresh, x -> x.split(1, 1));
+        refused("no stage, an engine", STATE, Boundary::oneEngine, x -> x.split(0, 1));
+        refused("BAD lots, and no stage", BAD, Boundary::fresh, x -> x.split(-1, 1));
+        refused("BAD size, and no stage", BAD, Boundary::oneEngine, x -> x.split(1, 31));
         StageYard x = bare(1);
         x.undo();
         due("the stage went", x.split(1, 1), STATE);
@@ -198,15 +188,15 @@ public final class BoundarySearchTest {
 
     private static void lotsOfNone() {
         says(11, "LOTS of a STAGE in the latest split() that was not refused. NONE.");
-        Boundary.range("stage", 0, 1, NONE, Boundary::rich, (x, k) -> x.lots(k));
-        Boundary.range("stage, all four", 0, 3, NONE, Boundary::full, (x, k) -> x.lots(k));
-        Boundary.refused("no stage", NONE, Boundary::fresh, x -> x.lots(0));
-        Boundary.refused("no split yet", NONE, Boundary::small, x -> x.lots(0));
-        Boundary.refused("a split that was refused", NONE, BoundarySearchTest::refusedSplit, x -> x.lots(0));
+        range("stage", 0, 1, NONE, Boundary::rich, (x, k) -> x.lots(k));
+        range("stage, all four", 0, 3, NONE, Boundary::full, (x, k) -> x.lots(k));
+        refused("no stage", NONE, Boundary::fresh, x -> x.lots(0));
+        refused("no split yet", NONE, Boundary::small, x -> x.lots(0));
+        refused("a split that was refused", NONE, BoundarySearchTest::refusedSplit, x -> x.lots(0));
     }
 
     private static StageYard refusedSplit() {
-        StageYard x = Boundary.small();
+        StageYard x = small();
         x.split(21, 1);
         return x;
     }
@@ -236,9 +226,9 @@ public final class BoundarySearchTest {
 
     private static void cheapestRanges() {
         says(12, "BAD: speed (0 .. 1000000), lift (0 .. 1000);");
-        Boundary.range("speed", 0, 1000000, BAD, Boundary::rich, (x, n) -> x.cheapest(n, 0));
-        Boundary.range("lift", 0, 1000, BAD, Boundary::rich, (x, n) -> x.cheapest(0, n));
-        Boundary.refused("both", BAD, Boundary::rich, x -> x.cheapest(1000001, 1001));
+        range("speed", 0, 1000000, BAD, Boundary::rich, (x, n) -> x.cheapest(n, 0));
+        range("lift", 0, 1000, BAD, Boundary::rich, (x, n) -> x.cheapest(0, n));
+        refused("both", BAD, Boundary::rich, x -> x.cheapest(1000001, 1001));
         StageYard x = new StageYard();
         x.engine(20, 999, 1, 7);
         x.set(0, 0);
@@ -250,12 +240,12 @@ public final class BoundarySearchTest {
 
     private static void cheapestStates() {
         says(12, "STATE: no STAGE, no ENGINE, or 4 STAGES.");
-        Boundary.refused("no engine", STATE, Boundary::fresh, x -> x.cheapest(0, 0));
-        Boundary.refused("no stage", STATE, Boundary::oneEngine, x -> x.cheapest(0, 0));
-        Boundary.refused("4 stages", STATE, Boundary::full, x -> x.cheapest(0, 0));
-        Boundary.refused("BAD speed, and no engine", BAD, Boundary::fresh, x -> x.cheapest(-1, 0));
-        Boundary.refused("BAD lift, and no stage", BAD, Boundary::oneEngine, x -> x.cheapest(0, -1));
-        Boundary.refused("BAD lift, and 4 stages", BAD, Boundary::full, x -> x.cheapest(0, 1001));
+        refused("no engine", STATE, Boundary::fresh, x -> x.cheapest(0, 0));
+        refused("no stage", STATE, Boundary::oneEngine, x -> x.cheapest(0, 0));
+        refused("4 stages", STATE, Boundary::full, x -> x.cheapest(0, 0));
+        refused("BAD speed, and no engine", BAD, Boundary::fresh, x -> x.cheapest(-1, 0));
+        refused("BAD lift, and no stage", BAD, Boundary::oneEngine, x -> x.cheapest(0, -1));
+        refused("BAD lift, and 4 stages", BAD, Boundary::full, x -> x.cheapest(0, 1001));
         StageYard x = bare(1);
         x.undo();
         due("the stage went", x.cheapest(0, 0), STATE);
@@ -274,7 +264,7 @@ public final class BoundarySearchTest {
 
     private static void cheapestNoneFound() {
         says(12, "THE CHEAPEST: its COST; -5: there is none.");
-        StageYard x = Boundary.small();
+        StageYard x = small();
         due("too fast", x.cheapest(1000000, 0), NO_WAY);
         due("too strong", x.cheapest(0, 1000), NO_WAY);
         due("both", x.cheapest(1000000, 1000), NO_WAY);
@@ -293,7 +283,7 @@ public final class BoundarySearchTest {
 
     private static void speedJustSo() {
         says(12, "such that LOW of the ROCKET is that SPEED or more");
-        StageYard x = Boundary.small();
+        StageYard x = small();
         x.engine(10, 4, 1, 60);
         due("just so fast", x.cheapest(1566, 0), 50);
         due("a speed less", x.cheapest(1565, 0), 50);
@@ -304,7 +294,7 @@ public final class BoundarySearchTest {
 
     private static void liftJustSo() {
         says(12, "and LIFT of each STAGE that or more (STUFF, FRAMES as they are)");
-        StageYard x = Boundary.small();
+        StageYard x = small();
         due("1000 by 5 just so", x.cheapest(0, 200), 50);
         due("2000 by 6 is 333", x.cheapest(0, 201), 100);
         due("just so", x.cheapest(0, 333), 100);
@@ -320,7 +310,7 @@ public final class BoundarySearchTest {
 
     private static void upToThreeEngines() {
         says(12, "for each STAGE an ENGINE and how many (1 .. 3)");
-        StageYard x = Boundary.oneEngine();
+        StageYard x = oneEngine();
         x.set(0, 10);
         x.stage(0, 9, 0, 0);
         due("at least one, with nothing asked", x.cheapest(0, 0), 50);
@@ -438,12 +428,12 @@ public final class BoundarySearchTest {
 
     private static void chosenOfNone() {
         says(13, "what 0 its ENGINE, 1 how many. NONE.");
-        Boundary.range("stage", 0, 1, NONE, Boundary::rich, (x, k) -> x.chosen(k, 0));
-        Boundary.range("what", 0, 1, NONE, Boundary::rich, (x, what) -> x.chosen(1, what));
-        Boundary.refused("neither", NONE, Boundary::rich, x -> x.chosen(2, 2));
-        Boundary.refused("no stage", NONE, Boundary::fresh, x -> x.chosen(0, 0));
-        Boundary.refused("none was asked for yet", NONE, Boundary::small, x -> x.chosen(0, 0));
-        Boundary.range("the third of three", 0, 2, NONE, BoundarySearchTest::threeChosen, (x, k) -> x.chosen(k, 1));
+        range("stage", 0, 1, NONE, Boundary::rich, (x, k) -> x.chosen(k, 0));
+        range("what", 0, 1, NONE, Boundary::rich, (x, what) -> x.chosen(1, what));
+        refused("neither", NONE, Boundary::rich, x -> x.chosen(2, 2));
+        refused("no stage", NONE, Boundary::fresh, x -> x.chosen(0, 0));
+        refused("none was asked for yet", NONE, Boundary::small, x -> x.chosen(0, 0));
+        range("the third of three", 0, 2, NONE, BoundarySearchTest::threeChosen, (x, k) -> x.chosen(k, 1));
     }
 
     private static StageYard threeChosen() {
@@ -454,7 +444,7 @@ public final class BoundarySearchTest {
 
     private static void chosenOfTheLatest() {
         says(13, "Of a STAGE in the latest cheapest() that told a COST");
-        StageYard x = Boundary.small();
+        StageYard x = small();
         due("none found", x.cheapest(1000000, 0), NO_WAY);
         due("it told no cost", x.chosen(0, 0), NONE);
         due("refused", x.cheapest(-1, 0), BAD);

@@ -1,7 +1,5 @@
 /** Promises 25 to 29, the sentences that name a boundary case: a year's flights, and the counts. */
-public final class BoundaryYearTest {
-    private static final int NONE = Boundary.NONE, BAD = Boundary.BAD, FULL = Boundary.FULL;
-
+public final class BoundaryYearTest extends Boundary {
     public static void main(String[] args) {
         flightRanges();
         tenFlights();
@@ -20,15 +18,7 @@ public final class BoundaryYearTest {
         countOfNone();
         countOfNothing();
         countOfAll();
-        Boundary.end();
-    }
-
-    private static void says(int promise, String words) {
-        Boundary.says(promise, words);
-    }
-
-    private static void due(String what, int got, int want) {
-        Boundary.due(what, got, want);
+        end();
     }
 
     private static void yearIs(StageYard x, int worth, int set) {
@@ -38,13 +28,13 @@ public final class BoundaryYearTest {
 
     private static void flightRanges() {
         says(25, "each needs so many (0 .. 9) of each of ENGINES 0, 1, 2");
-        Boundary.range("a", 0, 9, BAD, Boundary::rich, (x, n) -> x.flight(n, 0, 0, 0, 0));
-        Boundary.range("b", 0, 9, BAD, Boundary::rich, (x, n) -> x.flight(0, n, 0, 0, 0));
-        Boundary.range("c", 0, 9, BAD, Boundary::rich, (x, n) -> x.flight(0, 0, n, 0, 0));
+        range("a", 0, 9, BAD, Boundary::rich, (x, n) -> x.flight(n, 0, 0, 0, 0));
+        range("b", 0, 9, BAD, Boundary::rich, (x, n) -> x.flight(0, n, 0, 0, 0));
+        range("c", 0, 9, BAD, Boundary::rich, (x, n) -> x.flight(0, 0, n, 0, 0));
         says(25, "by an END (a month 0 .. 11)");
-        Boundary.range("end", 0, 11, BAD, Boundary::rich, (x, n) -> x.flight(0, 0, 0, n, 0));
+        range("end", 0, 11, BAD, Boundary::rich, (x, n) -> x.flight(0, 0, 0, n, 0));
         says(25, "and has a WORTH (0 .. 999).");
-        Boundary.range("worth", 0, 999, BAD, Boundary::rich, (x, n) -> x.flight(0, 0, 0, 0, n));
+        range("worth", 0, 999, BAD, Boundary::rich, (x, n) -> x.flight(0, 0, 0, 0, n));
         StageYard x = new StageYard();
         x.flight(9, 9, 9, 11, 999);
         for (int e = 0; e < 3; e++) x.deliver(e, 11, 9);
@@ -58,30 +48,30 @@ public final class BoundaryYearTest {
         due("an eleventh", x.flight(0, 0, 0, 0, 999), FULL);
         due("there are ten", x.count(2), 10);
         yearIs(x, 10, 1023);
-        Boundary.refused("one too many", FULL, Boundary::full, y -> y.flight(0, 0, 0, 0, 999));
+        refused("one too many", FULL, Boundary::full, y -> y.flight(0, 0, 0, 0, 999));
     }
 
     private static void flightRefusals() {
         says(25, "A FLIGHT of the year more: its number. BAD; FULL.");
-        Boundary.refused("BAD a, and full", BAD, Boundary::full, x -> x.flight(10, 0, 0, 0, 0));
-        Boundary.refused("BAD b, and full", BAD, Boundary::full, x -> x.flight(0, -1, 0, 0, 0));
-        Boundary.refused("BAD c, and full", BAD, Boundary::full, x -> x.flight(0, 0, 10, 0, 0));
-        Boundary.refused("BAD end, and full", BAD, Boundary::full, x -> x.flight(0, 0, 0, 12, 0));
-        Boundary.refused("BAD worth, and full", BAD, Boundary::full, x -> x.flight(0, 0, 0, 0, 1000));
-        Boundary.refused("all of them", BAD, Boundary::rich, x -> x.flight(-1, 10, -1, 12, -1));
+        refused("BAD a, and full", BAD, Boundary::full, x -> x.flight(10, 0, 0, 0, 0));
+        refused("BAD b, and full", BAD, Boundary::full, x -> x.flight(0, -1, 0, 0, 0));
+        refused("BAD c, and full", BAD, Boundary::full, x -> x.flight(0, 0, 10, 0, 0));
+        refused("BAD end, and full", BAD, Boundary::full, x -> x.flight(0, 0, 0, 12, 0));
+        refused("BAD worth, and full", BAD, Boundary::full, x -> x.flight(0, 0, 0, 0, 1000));
+        refused("all of them", BAD, Boundary::rich, x -> x.flight(-1, 10, -1, 12, -1));
     }
 
     private static void deliverRanges() {
         says(26, "DELIVERED of ENGINE 0, 1, 2 in a month: what it was. NONE; BAD.");
-        Boundary.range("engine", 0, 2, NONE, Boundary::full, (x, e) -> x.deliver(e, 0, 1));
-        Boundary.range("month", 0, 11, NONE, Boundary::rich, (x, month) -> x.deliver(0, month, 1));
-        Boundary.range("n", 0, 9, BAD, Boundary::rich, (x, n) -> x.deliver(2, 11, n));
-        Boundary.refused("no engine, and BAD", NONE, Boundary::rich, x -> x.deliver(3, 0, 10));
-        Boundary.refused("no month, and BAD", NONE, Boundary::rich, x -> x.deliver(0, 12, -1));
-        Boundary.refused("neither", NONE, Boundary::rich, x -> x.deliver(-1, -1, 0));
+        range("engine", 0, 2, NONE, Boundary::full, (x, e) -> x.deliver(e, 0, 1));
+        range("month", 0, 11, NONE, Boundary::rich, (x, month) -> x.deliver(0, month, 1));
+        range("n", 0, 9, BAD, Boundary::rich, (x, n) -> x.deliver(2, 11, n));
+        refused("no engine, and BAD", NONE, Boundary::rich, x -> x.deliver(3, 0, 10));
+        refused("no month, and BAD", NONE, Boundary::rich, x -> x.deliver(0, 12, -1));
+        refused("neither", NONE, Boundary::rich, x -> x.deliver(-1, -1, 0));
         // A month too far must not be the next engine's first.
-        Boundary.refused("month 12 of engine 0", NONE, Boundary::rich, x -> x.deliver(0, 12, 9));
-        Boundary.refused("month -1 of engine 1", NONE, Boundary::rich, x -> x.deliver(1, -1, 9));
+        refused("month 12 of engine 0", NONE, Boundary::rich, x -> x.deliver(0, 12, 9));
+        refused("month -1 of engine 1", NONE, Boundary::rich, x -> x.deliver(1, -1, 9));
     }
 
     private static void deliveredAtFirst() {
@@ -269,8 +259,8 @@ public final class BoundaryYearTest {
 
     private static void countOfNone() {
         says(29, "4 bought ones, 5 MASS of the whole ROCKET with its LOAD. NONE.");
-        Boundary.range("what", 0, 5, NONE, Boundary::rich, (x, what) -> x.count(what));
-        Boundary.refused("what 6 of a new object", NONE, Boundary::fresh, x -> x.count(6));
+        range("what", 0, 5, NONE, Boundary::rich, (x, what) -> x.count(what));
+        refused("what 6 of a new object", NONE, Boundary::fresh, x -> x.count(6));
     }
 
     private static void countOfNothing() {
@@ -286,7 +276,7 @@ public final class BoundaryYearTest {
 
     private static void countOfAll() {
         says(29, "0 ENGINES, 1 STAGES, 2 FLIGHTS of the year, 3 ENGINES in STORE, 4 bought ones");
-        StageYard x = Boundary.full();
+        StageYard x = full();
         int[] want = {6, 4, 10, 6 * 99, 0};
         for (int what = 0; what < 5; what++) due("what " + what, x.count(what), want[what]);
         // Engines of MASS 1 to 4, a tank of 1 and STUFF 8 each, FRAMES 0 to 3, LOAD 10.
